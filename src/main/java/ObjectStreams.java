@@ -488,13 +488,12 @@ public final class ObjectStreams {
             ownLength = 0;
         }
 
+        /** Own again, with as many bytes of its CONTENT; moveInto() left none of its own. */
         void moveOut(int length) {
-            ownLength = 0;
             for (int i = 0; i < length && i < MOST_OWN_BYTES; i++) {
                 append(byteAt(i));
             }
             home = null;
-            index = 0;
         }
 
         /** How many own bytes from the beginning on are those of the one before. */

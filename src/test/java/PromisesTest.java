@@ -356,6 +356,9 @@ public final class PromisesTest {
         due("one that is in a pack", x.in(1), 0);
         due("a stream", x.in(3), NONE);
         due("a new pack extends none", x.find(1, 1), NONE);
+        due("change(1)", x.change(1), 1);
+        due("pack(10) of the changed one", x.pack(10), 1);
+        octets("the changed one", x, 2, 0, 1, 0, 0, 0, 1, 9);
     }
 
     private static void sizeAndLost() {
@@ -601,6 +604,13 @@ public final class PromisesTest {
         due("an object for the third", again.object(0), 1);
         due("with it", again.read(0), 1);
 
+        ObjectStreams behind = withValues(3);
+        behind.raw(3, 12);
+        addAll(behind, 0, 0, 0, 0, 0, 0, 1, 0, 4, 0, 2, 0, 7);
+        addAll(behind, 0, 0, 2, 8, 9, 2, 1, 5, 4, 0);
+        due("s of 2 behind 2, s of 4 behind 3", behind.read(0), 2);
+        allTold("s of 4 behind 3", behind, 2, 2);
+
         ObjectStreams own = withValues(1);
         putAll(own, 0, 9, 9);
         own.raw(1, 4);
@@ -693,6 +703,12 @@ public final class PromisesTest {
         due("pair(0, 1, 2)", x.pair(0, 1, 2), 0);
         due("pair(0, 2, 2)", x.pair(0, 2, 2), 1);
         due("pair(0, 3, 0), the COUNT", x.pair(0, 3, 0), NONE);
+        x.raw(1, 8);
+        addAll(x, 1, 0, 0, 0, 0, 0, 0, 0, 0, 0, 0);
+        due("pair(1, 0, 2)", x.pair(1, 0, 2), 0);
+        for (int what = 0; what < 3; what++) {
+            due("pair(1, 1, " + what + "), the COUNT, with bytes before FIRST", x.pair(1, 1, what), NONE);
+        }
     }
 
     private static void contentOfUnsignedBytes() {
@@ -793,6 +809,8 @@ public final class PromisesTest {
         for (int what = 0; what < want.length; what++) {
             due("count(" + what + ")", x.count(what), want[what]);
         }
+        x.row(0, 2, 0);
+        due("count(3) with 0 and 2", x.count(3), 2);
         x.change(0);
         x.change(2);
         int[] later = {5, 3, 1, 0, 16};
