@@ -7,6 +7,7 @@ public final class ObjectStreams {
     private static final int MOST_PAIRS = 99, MOST_INDEX = 99, MOST_IN_A_PACK = 10;
     private static final int VALUE = 0, STREAM = 1;
     private static final int PAIR_OCTETS = 4, CONTENT_HEAD = 2;
+    private static final int OBJECT = 0, PLACE = 1;
 
     private static final int TRUE_PAIR = 0, NOT_THERE = 1, NO_CONTENT = 2;
     private static final int NO_OBJECT = 3, OF_STREAM = 4, OBJECT_AGAIN = 5;
@@ -206,10 +207,7 @@ public final class ObjectStreams {
         if (row == null || what < 0 || what > 2) {
             return BAD;
         }
-        if (what == 2) {
-            return row.contentLength(k);
-        }
-        return what == 0 ? row.objectOf(k) : row.placeOf(k);
+        return what == 2 ? row.contentLength(k) : row.numberOf(k, what);
     }
 
     /** Promise 17. */
@@ -282,7 +280,7 @@ public final class ObjectStreams {
         if (contentLength == NONE) {
             return NO_CONTENT;
         }
-        int object = row.objectOf(k);
+        int object = row.numberOf(k, OBJECT);
         Item item = itemOf(object);
         if (item == null) {
             return NO_OBJECT;
@@ -436,7 +434,7 @@ public final class ObjectStreams {
         for (int i = from; i < to; i++) {
             Item item = planned(i);
             if (item != null) {
-                made.appendContent(item, item.alike(before));
+                made.appendContent(item, before);
                 before = item;
             }
         }
@@ -471,7 +469,7 @@ public final class ObjectStreams {
             if (home == null) {
                 return ownLength;
             }
-            return home.objectOf(index) == number ? home.contentLength(index) : NONE;
+            return home.numberOf(index, OBJECT) == number ? home.contentLength(index) : NONE;
         }
 
         /** Byte i; i is below length(). */
@@ -544,11 +542,12 @@ public final class ObjectStreams {
             append((byte) value);
         }
 
-        void appendContent(Item item, int alike) {
+        void appendContent(Item item, Item before) {
+            int alike = item.alike(before);
             append((byte) alike);
             append((byte) (item.ownLength - alike));
             for (int i = alike; i < item.ownLength; i++) {
-                append(item.byteAt(i));
+                append(item.own[i]);
             }
         }
 
@@ -560,10 +559,6 @@ public final class ObjectStreams {
             return holds(i) ? octets[i] : 0;
         }
 
-        int numberAt(int i) {
-            return (byteAt(i) & 255) << 8 | byteAt(i + 1) & 255;
-        }
-
         boolean isThere(int k) {
             if (k < 0 || k >= pairs) {
                 return false;
@@ -572,17 +567,18 @@ public final class ObjectStreams {
             return end <= length && end <= first;
         }
 
-        int objectOf(int k) {
-            return isThere(k) ? numberAt(PAIR_OCTETS * k) : NONE;
-        }
-
-        int placeOf(int k) {
-            return isThere(k) ? numberAt(PAIR_OCTETS * k + 2) : NONE;
+        /** The number OBJECT or PLACE of PAIR k; NONE when that is not THERE. */
+        int numberOf(int k, int which) {
+            if (!isThere(k) || which < OBJECT || which > PLACE) {
+                return NONE;
+            }
+            int i = PAIR_OCTETS * k + 2 * which;
+            return (octets[i] & 255) << 8 | octets[i + 1] & 255;
         }
 
         int firstPairOf(int object) {
             for (int k = 0; k < pairs; k++) {
-                if (isThere(k) && objectOf(k) == object) {
+                if (isThere(k) && numberOf(k, OBJECT) == object) {
                     return k;
                 }
             }
@@ -594,7 +590,7 @@ public final class ObjectStreams {
             if (!isThere(k)) {
                 return NONE;
             }
-            int start = first + placeOf(k);
+            int start = first + numberOf(k, PLACE);
             if (!holds(start) || !holds(start + 1)) {
                 return NONE;
             }
@@ -620,7 +616,7 @@ public final class ObjectStreams {
         /** Byte i of the CONTENT of PAIR k; i is below contentLength(k). */
         byte contentByte(int k, int i) {
             for (int j = k; j >= 0; j--) {
-                int start = first + placeOf(j);
+                int start = first + numberOf(j, PLACE);
                 int alike = byteAt(start) & 255;
                 if (i >= alike) {
                     return byteAt(start + CONTENT_HEAD + i - alike);
