@@ -6,7 +6,7 @@ import java.util.List;
  * written out in full each time, and packing works on copies that are kept only when they fit.
  */
 final class Model {
-    static final int NONE = -1, BAD = -2, STATE = -3, FULL = -4, THROWS = Check.THROWS;
+    static final int NONE = -1, BAD = -2, STATE = -3, FULL = -4, THROWS = Bench.THROWS;
 
     private static final class Thing {
         int kind;

@@ -1,29 +1,29 @@
 /** Long runs of mixed calls, of 512 at most, whose answers are those of the model. */
 public final class ModelTest {
-    private static final int RUNS = 3000, CALLS = 512;
-    private static final int[] EDGES = {-1, -2, 2, 3, 59, 60, 99, 100, 600, 601, 65535, Integer.MIN_VALUE, Integer.MAX_VALUE};
+    private static final int RUNS = 4000, CALLS = 512;
+    private static final int[] EDGES =
+        {-1, -2, 2, 3, 19, 20, 59, 60, 99, 100, 600, 601, 65535, 65536, 1 << 30, Integer.MIN_VALUE, Integer.MAX_VALUE};
     private static final int[] BYTES = {0, 0, 0, 1, 1, 2, 3, 4, 5, 8, 12, 20, -1, -56, 60};
 
     private static final Check CHECK = new Check("ModelTest");
 
-    private final ObjectStreams x = new ObjectStreams();
+    private final Bench x = new Bench(CHECK);
     private final Model model = new Model();
-    private final int run;
     private long seed;
-    private int calls = 0;
 
     private ModelTest(int run) {
-        this.run = run;
         this.seed = run;
     }
 
     public static void main(String[] args) {
         for (int run = 0; run < RUNS; run++) {
+            CHECK.about("run " + run);
             ModelTest test = new ModelTest(run);
-            switch (run % 3) {
+            switch (run % 4) {
                 case 0: test.mixed(); break;
                 case 1: test.packs(); break;
-                default: test.wide(); break;
+                case 2: test.wide(); break;
+                default: test.crowd(); break;
             }
         }
         CHECK.end();
@@ -43,45 +43,75 @@ public final class ModelTest {
         return (byte) (next(50) == 0 ? next(256) : BYTES[next(BYTES.length)]);
     }
 
-    private void due(String call, int got, int want) {
-        calls++;
-        CHECK.due("run " + run + ", call " + calls + ": " + call, got, want);
+    private boolean callsLeft(int many) {
+        return x.calls() + many <= CALLS;
+    }
+
+    private void due(int got, int want) {
+        CHECK.due(got, want);
     }
 
     private void object(int kind) {
-        due("object(" + kind + ")", x.object(kind), model.object(kind));
+        due(x.object(kind), model.object(kind));
     }
 
     private void put(int object, byte b) {
-        due("put(" + object + ", " + b + ")", x.put(object, b), model.put(object, b));
+        due(x.put(object, b), model.put(object, b));
     }
 
     private void raw(int count, int first) {
-        due("raw(" + count + ", " + first + ")", x.raw(count, first), model.raw(count, first));
+        due(x.raw(count, first), model.raw(count, first));
     }
 
-    private void add(int pack, byte b) {
-        due("add(" + pack + ", " + b + ")", x.add(pack, b), model.add(pack, b));
+    private void add(int pack, int b) {
+        due(x.add(pack, b), model.add(pack, (byte) b));
     }
 
     private void addPair(int pack, int object, int place) {
-        add(pack, (byte) (object >> 8));
-        add(pack, (byte) object);
-        add(pack, (byte) (place >> 8));
-        add(pack, (byte) place);
+        add(pack, object >> 8);
+        add(pack, object);
+        add(pack, place >> 8);
+        add(pack, place);
+    }
+
+    private void extend(int pack, int other) {
+        due(x.extend(pack, other), model.extend(pack, other));
     }
 
     private void row(int object, int pack, int index) {
-        due("row(" + object + ", " + pack + ", " + index + ")",
-            x.row(object, pack, index), model.row(object, pack, index));
+        due(x.row(object, pack, index), model.row(object, pack, index));
     }
 
     private void change(int object) {
-        due("change(" + object + ")", x.change(object), model.change(object));
+        due(x.change(object), model.change(object));
     }
 
     private void pack(int most) {
-        due("pack(" + most + ")", x.pack(most), model.pack(most));
+        due(x.pack(most), model.pack(most));
+    }
+
+    private void at(int object, int i) {
+        due(x.at(object, i), model.at(object, i));
+    }
+
+    private void octet(int pack, int i) {
+        due(x.octet(pack, i), model.octet(pack, i));
+    }
+
+    private void in(int object) {
+        due(x.in(object), model.in(object));
+    }
+
+    private void read(int pack) {
+        due(x.read(pack), model.read(pack));
+    }
+
+    private void told(int i, int what) {
+        due(x.told(i, what), model.told(i, what));
+    }
+
+    private void pair(int pack, int k, int what) {
+        due(x.pair(pack, k, what), model.pair(pack, k, what));
     }
 
     /** All kinds of calls on few objects and packs, many of them broken. */
@@ -90,29 +120,34 @@ public final class ModelTest {
         object(0);
         object(1);
         rawWithPairs(0);
-        while (calls < CALLS - 40) {
+        while (callsLeft(21)) {
             int call = next(20);
-            if (call < 5) {
-                put(numberUpTo(8), someByte());
-            } else if (call < 8) {
-                add(numberUpTo(4), someByte());
-            } else if (call == 8) {
-                object(numberUpTo(2));
-            } else if (call == 9) {
-                pack(next(4) == 0 ? numberUpTo(12) : 1 + next(10));
-            } else if (call == 10) {
-                row(numberUpTo(8), numberUpTo(4), numberUpTo(6));
-            } else if (call == 11) {
-                change(numberUpTo(8));
-            } else if (call == 12) {
-                int pack = numberUpTo(5);
-                int other = next(6) == 0 ? -1 : numberUpTo(5);
-                due("extend(" + pack + ", " + other + ")", x.extend(pack, other), model.extend(pack, other));
-            } else if (call == 13 && next(4) == 0) {
+            if (call == 13 && next(4) == 0) {
                 rawWithPairs(model.count(1));
+            } else if (call < 13) {
+                changeSome(call, 8, 5);
             } else {
-                ask();
+                ask(8, 5);
             }
+        }
+    }
+
+    /** A call that may change something, one of 13. */
+    private void changeSome(int call, int objects, int packs) {
+        if (call < 5) {
+            put(numberUpTo(objects), someByte());
+        } else if (call < 8) {
+            add(numberUpTo(packs), someByte());
+        } else if (call == 8) {
+            object(numberUpTo(2));
+        } else if (call == 9) {
+            pack(next(4) == 0 ? numberUpTo(12) : 1 + next(10));
+        } else if (call == 10) {
+            row(numberUpTo(objects), numberUpTo(packs), numberUpTo(6));
+        } else if (call == 11) {
+            change(numberUpTo(objects));
+        } else {
+            extend(numberUpTo(packs), next(6) == 0 ? -1 : numberUpTo(packs));
         }
     }
 
@@ -124,31 +159,22 @@ public final class ModelTest {
         }
     }
 
-    private void ask() {
-        int object = numberUpTo(8);
-        int pack = numberUpTo(5);
+    private void ask(int objects, int packs) {
+        int object = numberUpTo(objects);
+        int pack = numberUpTo(packs);
         int i = numberUpTo(8);
         int what = numberUpTo(5);
         switch (next(9)) {
-            case 0: due("size(" + object + ")", x.size(object), model.size(object)); break;
-            case 1: due("at(" + object + ", " + i + ")", Check.at(x, object, i), model.at(object, i)); break;
-            case 2: due("in(" + object + ")", x.in(object), model.in(object)); break;
-            case 3: due("octet(" + pack + ", " + i + ")", Check.octet(x, pack, i), model.octet(pack, i)); break;
-            case 4: due("read(" + pack + ")", x.read(pack), model.read(pack)); break;
-            case 5: askTold(next(8) - 1); break;
-            case 6: askPair(pack, i, what); break;
-            case 7: due("find(" + object + ", " + pack + ")", x.find(object, pack), model.find(object, pack)); break;
-            default: due("count(" + what + ")", x.count(what), model.count(what)); break;
+            case 0: due(x.size(object), model.size(object)); break;
+            case 1: at(object, i); break;
+            case 2: in(object); break;
+            case 3: octet(pack, i); break;
+            case 4: read(pack); break;
+            case 5: told(next(8) - 1, next(2)); break;
+            case 6: pair(pack, i, what); break;
+            case 7: due(x.find(object, pack), model.find(object, pack)); break;
+            default: due(x.count(what), model.count(what)); break;
         }
-    }
-
-    private void askTold(int i) {
-        due("told(" + i + ", 0)", x.told(i, 0), model.told(i, 0));
-        due("told(" + i + ", 1)", x.told(i, 1), model.told(i, 1));
-    }
-
-    private void askPair(int pack, int k, int what) {
-        due("pair(" + pack + ", " + k + ", " + what + ")", x.pair(pack, k, what), model.pair(pack, k, what));
     }
 
     /** Many values with like beginnings, packed, changed and packed again. */
@@ -168,7 +194,7 @@ public final class ModelTest {
             put(object, (byte) next(letters));
         }
         pack(1 + next(10));
-        while (calls < CALLS) {
+        while (callsLeft(1)) {
             lookAt(next(values), next(20));
         }
     }
@@ -176,14 +202,11 @@ public final class ModelTest {
     private void lookAt(int object, int pack) {
         int i = next(12);
         switch (next(5)) {
-            case 0: due("in(" + object + ")", x.in(object), model.in(object)); break;
-            case 1: due("at(" + object + ", " + i + ")", Check.at(x, object, i), model.at(object, i)); break;
-            case 2:
-                int octet = next(100);
-                due("octet(" + pack + ", " + octet + ")", Check.octet(x, pack, octet), model.octet(pack, octet));
-                break;
-            case 3: askPair(pack, i, next(3)); break;
-            default: due("read(" + pack + ")", x.read(pack), model.read(pack)); break;
+            case 0: in(object); break;
+            case 1: at(object, i); break;
+            case 2: octet(pack, next(100)); break;
+            case 3: pair(pack, i, next(3)); break;
+            default: read(pack); break;
         }
     }
 
@@ -198,29 +221,53 @@ public final class ModelTest {
             addPair(0, i, 3 * i);
         }
         for (int i = 0; i < values; i++) {
-            add(0, (byte) 0);
-            add(0, (byte) (48 + next(14)));
-            add(0, (byte) next(30));
+            add(0, 0);
+            add(0, 48 + next(14));
+            add(0, next(30));
         }
         for (int i = 0; i < 62; i++) {
-            add(0, (byte) next(3));
+            add(0, next(3));
         }
         for (int i = 0; i < values; i++) {
             row(i, 0, i);
             change(i);
         }
         pack(8 + next(3));
-        due("count(4)", x.count(4), model.count(4));
-        while (calls < CALLS) {
+        due(x.count(4), model.count(4));
+        while (callsLeft(4)) {
             int object = next(values);
-            int i = next(62);
             int pack = next(4);
-            int octet = 480 + next(125);
-            due("at(" + object + ", " + i + ")", Check.at(x, object, i), model.at(object, i));
-            due("in(" + object + ")", x.in(object), model.in(object));
-            due("octet(" + pack + ", " + octet + ")", Check.octet(x, pack, octet), model.octet(pack, octet));
+            at(object, next(62));
+            in(object);
+            octet(pack, 480 + next(125));
             if (next(4) == 0) {
-                add(pack, (byte) 1);
+                add(pack, 1);
+            }
+        }
+    }
+
+    /** As many objects and packs as there can be, or nearly, and packs that extend one another. */
+    private void crowd() {
+        for (int i = 58 + next(3); i > 0; i--) {
+            object(next(6) == 0 ? 1 : 0);
+        }
+        int bytes = next(30);
+        for (int i = 0; i < bytes; i++) {
+            put(next(60), someByte());
+        }
+        pack(1 + next(4));
+        while (model.count(1) < 18 + next(3)) {
+            int pack = model.count(1);
+            raw(numberUpTo(4), next(14));
+            addPair(pack, next(62), next(4));
+            extend(pack, next(20));
+            extend(next(20), pack);
+        }
+        while (callsLeft(1)) {
+            if (next(3) == 0) {
+                changeSome(next(13), 62, 21);
+            } else {
+                ask(62, 21);
             }
         }
     }

@@ -1,8 +1,8 @@
-/** Every promise of the document by itself: ordinary inputs, the edges that it names, wrong inputs. */
+/** Each sentence of the promises 1 to 18 by itself: what is ordinary, its edges, wrong inputs. */
 public final class PromisesTest {
-    private static final int NONE = -1, BAD = -2, STATE = -3, FULL = -4;
-    private static final int THROWS = Check.THROWS;
-    private static final int[] NO_NUMBER = {-1, -2, 60, 100, Integer.MIN_VALUE, Integer.MAX_VALUE};
+    private static final int NONE = Bench.NONE, BAD = Bench.BAD, STATE = Bench.STATE, FULL = Bench.FULL;
+    private static final int THROWS = Bench.THROWS;
+    private static final int LEAST = Integer.MIN_VALUE, GREATEST = Integer.MAX_VALUE;
 
     private static final Check CHECK = new Check("PromisesTest");
 
@@ -10,812 +10,1025 @@ public final class PromisesTest {
         newObject();
         object();
         put();
+        putRefused();
         change();
+        changeRefused();
         changeOfMuch();
-        packOrder();
-        packMost();
-        packOctets();
+        changeOfLost();
+        pack();
         packFull();
-        packLeavesOut();
-        sizeAndLost();
+        size();
         at();
+        atThrows();
         in();
         raw();
+        rawRefused();
         add();
         octet();
         extend();
+        extendItself();
+        extendRefused();
         row();
+        rowRefused();
         read();
-        readNotThere();
+        readObjects();
+        readAgain();
         told();
+        toldNone();
+        toldLatest();
         pair();
-        contentOfUnsignedBytes();
-        contentBehindNone();
+        pairRefused();
         find();
+        findExtended();
         count();
         CHECK.end();
     }
 
-    private static void due(String call, long got, long want) {
-        CHECK.due(call, got, want);
+    private static void about(String words) {
+        CHECK.about(words);
     }
 
-    private static ObjectStreams withValues(int values) {
-        ObjectStreams x = new ObjectStreams();
+    private static Bench bench(int values) {
+        return new Bench(CHECK, values);
+    }
+
+    /** So many values with one byte, their number. */
+    private static Bench benchOfOneByte(int values) {
+        Bench x = bench(values);
         for (int i = 0; i < values; i++) {
-            due("object(0)", x.object(0), i);
+            x.due(x.put(i, i), 1);
         }
         return x;
     }
 
-    private static void putAll(ObjectStreams x, int object, int... bytes) {
-        for (int b : bytes) {
-            x.put(object, (byte) b);
-        }
-    }
-
-    private static void addAll(ObjectStreams x, int pack, int... bytes) {
-        for (int b : bytes) {
-            x.add(pack, (byte) b);
-        }
-    }
-
-    private static void bytes(String name, ObjectStreams x, int object, int... want) {
-        due(name + ": size(" + object + ")", x.size(object), want.length);
-        for (int i = 0; i < want.length; i++) {
-            due(name + ": at(" + object + ", " + i + ")", Check.at(x, object, i), (byte) want[i]);
-        }
-        due(name + ": at behind the last", Check.at(x, object, want.length), THROWS);
-    }
-
-    private static void octets(String name, ObjectStreams x, int pack, int... want) {
-        for (int i = 0; i < want.length; i++) {
-            due(name + ": octet(" + pack + ", " + i + ")", Check.octet(x, pack, i), (byte) want[i]);
-        }
-        due(name + ": octet behind the last", Check.octet(x, pack, want.length), THROWS);
-    }
-
-    private static void allTold(String name, ObjectStreams x, int... faultsAndPairs) {
-        int many = faultsAndPairs.length / 2;
-        due(name + ": told(NONE, 0)", x.told(NONE, 0), many);
-        for (int i = 0; i < many; i++) {
-            due(name + ": told(" + i + ", 0)", x.told(i, 0), faultsAndPairs[2 * i]);
-            due(name + ": told(" + i + ", 1)", x.told(i, 1), faultsAndPairs[2 * i + 1]);
-        }
-        due(name + ": told behind the last", x.told(many, 0), NONE);
-    }
-
-    /**
-     * Values with own bytes that differ from the first byte on. They come out of one raw pack whose
-     * contents overlap, as so many bytes could not be put within 512 calls.
-     */
-    private static ObjectStreams broad(int values, int length) {
-        ObjectStreams x = withValues(values);
-        x.raw(values, 4 * values);
-        for (int j = 0; j < values; j++) {
-            addAll(x, 0, 0, j, 0, 3 * j);
-        }
-        for (int j = 0; j < values; j++) {
-            addAll(x, 0, 0, length, 100 + j);
-        }
-        addAll(x, 0, new int[length]);
-        for (int j = 0; j < values; j++) {
-            due("broad: row(" + j + ")", x.row(j, 0, j), 0);
-            due("broad: change(" + j + ")", x.change(j), length);
-        }
+    /** Two values and a stream; the values are in pack 0, the stream has a byte. */
+    private static Bench packed() {
+        Bench x = bench(2);
+        x.due(x.object(1), 2);
+        x.putAll(0, 1, 2, 3);
+        x.putAll(1, 1, 2, 4, 5);
+        x.putAll(2, 6);
+        x.due(x.pack(2), 1);
         return x;
     }
 
     private static void newObject() {
-        ObjectStreams x = new ObjectStreams();
+        about("1: No objects, no packs");
+        Bench x = bench(0);
         for (int what = 0; what <= 4; what++) {
-            due("new: count(" + what + ")", x.count(what), 0);
+            x.due(x.count(what), 0);
         }
-        due("new: size(0)", x.size(0), BAD);
-        due("new: read(0)", x.read(0), BAD);
-        due("new: told(NONE, 0)", x.told(NONE, 0), 0);
-        due("new: told(0, 0)", x.told(0, 0), NONE);
-        x.object(0);
-        x.put(0, (byte) 1);
-        x.pack(1);
-        ObjectStreams y = new ObjectStreams();
-        due("new beside another: count(0)", y.count(0), 0);
-        due("new beside another: count(1)", y.count(1), 0);
+        x.due(x.size(0), BAD);
+        x.due(x.read(0), BAD);
+        x.due(x.pack(1), 0);
+        x.due(x.told(NONE, 0), 0);
+        x.due(x.told(NONE, 1), 0);
+        x.due(x.told(0, 0), NONE);
+        packed();
+        Bench other = bench(0);
+        other.due(other.count(0), 0);
+        other.due(other.count(1), 0);
+        other.due(other.object(0), 0);
+        other.due(other.raw(0, 0), 0);
     }
 
     private static void object() {
-        ObjectStreams x = new ObjectStreams();
-        for (int kind : new int[] {-1, 2, -2, 256, Integer.MIN_VALUE, Integer.MAX_VALUE}) {
-            due("object(" + kind + ")", x.object(kind), BAD);
+        about("2: An OWN object without bytes: its number");
+        Bench x = bench(0);
+        x.due(x.object(0), 0);
+        x.due(x.object(1), 1);
+        x.due(x.object(0), 2);
+        for (int n = 0; n < 3; n++) {
+            x.due(x.in(n), NONE);
+            x.bytesDue(n);
         }
-        for (int i = 0; i < 60; i++) {
-            due("object " + i, x.object(i % 2), i);
+        x.raw(1, 4);
+        x.due(x.row(0, 0, 0), 0);
+        x.due(x.row(1, 0, 0), BAD);
+
+        about("2: BAD when kind is not 0, 1");
+        for (int kind : new int[] {-1, 2, -2, 256, 65536, LEAST, LEAST + 1, GREATEST}) {
+            x.due(x.object(kind), BAD);
         }
-        due("object(0) as the 61st", x.object(0), FULL);
-        due("object(1) as the 61st", x.object(1), FULL);
-        due("object(2) as the 61st", x.object(2), BAD);
-        due("count(0)", x.count(0), 60);
-        due("size(59)", x.size(59), 0);
-        due("in(59)", x.in(59), NONE);
-        due("size(60)", x.size(60), BAD);
+        x.due(x.count(0), 3);
+        x.due(x.object(0), 3);
+
+        about("2: FULL");
+        Bench full = bench(60);
+        full.due(full.object(0), FULL);
+        full.due(full.object(1), FULL);
+        full.due(full.object(2), BAD);
+        full.due(full.object(-1), BAD);
+        full.due(full.count(0), 60);
+        full.due(full.put(59, 1), 1);
+        full.due(full.put(60, 1), BAD);
     }
 
     private static void put() {
-        ObjectStreams x = withValues(2);
-        due("object(1)", x.object(1), 2);
-        due("put(0, -128)", x.put(0, (byte) -128), 1);
-        due("put(0, 127)", x.put(0, (byte) 127), 2);
-        due("put(2, 5)", x.put(2, (byte) 5), 1);
-        bytes("put", x, 0, -128, 127);
-        bytes("put in another", x, 1);
-        bytes("put in a stream", x, 2, 5);
-        for (int n : NO_NUMBER) {
-            due("put(" + n + ", 1)", x.put(n, (byte) 1), BAD);
+        about("3: A byte behind an object's own: how many it has");
+        Bench x = bench(2);
+        x.due(x.object(1), 2);
+        x.due(x.put(0, -128), 1);
+        x.due(x.put(0, 127), 2);
+        x.due(x.put(0, 0), 3);
+        x.due(x.put(2, -1), 1);
+        x.bytesDue(0, -128, 127, 0);
+        x.bytesDue(1);
+        x.bytesDue(2, -1);
+    }
+
+    private static void putRefused() {
+        about("3: BAD when there is no such object");
+        Bench x = packed();
+        for (int n : Bench.NO_NUMBER) {
+            x.due(x.put(n, 1), BAD);
         }
-        due("put(3, 1)", x.put(3, (byte) 1), BAD);
-        for (int i = 0; i < 60; i++) {
-            due("put(1, " + i + ")", x.put(1, (byte) i), i + 1);
-        }
-        due("put(1, 60)", x.put(1, (byte) 60), FULL);
-        due("size(1)", x.size(1), 60);
-        due("pack(10)", x.pack(10), 1);
-        due("put of a packed one", x.put(0, (byte) 1), STATE);
-        due("put of a full packed one", x.put(1, (byte) 1), STATE);
-        due("put of a stream", x.put(2, (byte) 6), 2);
-        due("row to nothing", x.row(0, 0, 50), 1);
-        due("put of a lost one", x.put(0, (byte) 1), STATE);
+        x.due(x.put(3, 1), BAD);
+        x.due(bench(0).put(0, 1), BAD);
+
+        about("3: STATE when it is IN a PACK");
+        x.due(x.put(0, 1), STATE);
+        x.due(x.put(1, 1), STATE);
+        x.due(x.put(2, 1), 2);
+        x.due(x.row(0, 0, 50), 1);
+        x.due(x.put(0, 1), STATE);
+        x.due(x.change(0), NONE);
+        x.due(x.put(0, 1), 1);
+        Bench sixty = bench(1);
+        sixty.putAll(0, new int[60]);
+        sixty.due(sixty.pack(1), 1);
+        sixty.due(sixty.put(0, 1), STATE);
+
+        about("3: FULL when it has 60");
+        Bench full = bench(2);
+        full.putAll(0, new int[59]);
+        full.due(full.put(0, 7), 60);
+        full.due(full.put(0, 8), FULL);
+        full.due(full.put(0, 9), FULL);
+        full.due(full.size(0), 60);
+        full.due(full.at(0, 59), 7);
+        full.due(full.put(1, 1), 1);
     }
 
     private static void change() {
-        ObjectStreams x = withValues(2);
-        due("object(1)", x.object(1), 2);
-        putAll(x, 0, 1, 2, 3);
-        putAll(x, 1, 1, 2, 4, 5);
-        for (int n : NO_NUMBER) {
-            due("change(" + n + ")", x.change(n), BAD);
+        about("4: An object that is IN a PACK becomes OWN, with the bytes that it has: how many");
+        Bench x = packed();
+        x.due(x.change(1), 4);
+        x.due(x.in(1), NONE);
+        x.bytesDue(1, 1, 2, 4, 5);
+        x.due(x.put(1, 6), 5);
+        x.bytesDue(1, 1, 2, 4, 5, 6);
+        x.due(x.in(0), 0);
+        x.due(x.pair(0, 1, 0), 1);
+        x.due(x.pair(0, 1, 2), 4);
+        x.due(x.count(2), 1);
+        x.due(x.pack(1), 1);
+        x.octetsDue(1, 0, 1, 0, 0, 0, 5, 1, 2, 4, 5, 6);
+        x.due(x.change(0), 3);
+        x.bytesDue(0, 1, 2, 3);
+        Bench none = bench(1);
+        none.raw(1, 4);
+        none.addAll(0, 0, 0, 0, 0, 0, 0);
+        none.due(none.row(0, 0, 0), 0);
+        none.due(none.change(0), 0);
+        none.due(none.in(0), NONE);
+    }
+
+    private static void changeRefused() {
+        about("4: BAD");
+        Bench x = packed();
+        for (int n : Bench.NO_NUMBER) {
+            x.due(x.change(n), BAD);
         }
-        due("change of an own one", x.change(0), STATE);
-        due("change of a stream", x.change(2), STATE);
-        due("pack(2)", x.pack(2), 1);
-        due("change(1)", x.change(1), 4);
-        due("change(1) again", x.change(1), STATE);
-        due("in(1)", x.in(1), NONE);
-        bytes("changed", x, 1, 1, 2, 4, 5);
-        due("put behind", x.put(1, (byte) 6), 5);
-        bytes("changed and put", x, 1, 1, 2, 4, 5, 6);
-        due("pair(0, 1, 0) stays", x.pair(0, 1, 0), 1);
-        due("pair(0, 1, 2) stays", x.pair(0, 1, 2), 4);
-        due("row(1, 0, 0)", x.row(1, 0, 0), 0);
-        due("change of a lost one", x.change(1), NONE);
-        due("in(1)", x.in(1), NONE);
-        bytes("lost and changed", x, 1);
-        due("change(1) when own", x.change(1), STATE);
-        due("put(1, 9)", x.put(1, (byte) 9), 1);
+        x.due(x.change(3), BAD);
+        x.due(bench(0).change(0), BAD);
+
+        about("4: STATE when it is OWN");
+        x.due(x.change(2), STATE);
+        x.due(x.change(0), 3);
+        x.due(x.change(0), STATE);
+        x.bytesDue(0, 1, 2, 3);
+        x.due(x.row(1, 0, 0), 1);
+        x.due(x.change(1), NONE);
+        x.due(x.change(1), STATE);
+        x.due(bench(1).change(0), STATE);
     }
 
     private static void changeOfMuch() {
-        ObjectStreams x = withValues(4);
+        about("4: FULL when it has more than 60");
+        Bench x = bench(4);
         x.raw(4, 16);
-        addAll(x, 0, 0, 0, 0, 0, 0, 1, 0, 62, 0, 2, 0, 65, 0, 3, 0, 67);
-        addAll(x, 0, 0, 60);
+        x.addAll(0, 0, 0, 0, 0, 0, 1, 0, 62, 0, 2, 0, 65, 0, 3, 0, 67, 0, 60);
         for (int i = 0; i < 60; i++) {
-            x.add(0, (byte) (i + 1));
+            x.add(0, i + 1);
         }
-        addAll(x, 0, 60, 1, 99, 61, 0, 0, 0);
+        x.addAll(0, 60, 1, 99, 61, 0, 0, 61);
+        x.addAll(0, new int[61]);
         for (int i = 0; i < 4; i++) {
-            due("row(" + i + ")", x.row(i, 0, i), 0);
+            x.due(x.row(i, 0, i), 0);
         }
-        due("change with 60", x.change(0), 60);
-        due("at(0, 59)", Check.at(x, 0, 59), 60);
-        due("put behind 60", x.put(0, (byte) 1), FULL);
-        due("change with 61", x.change(1), FULL);
-        due("it stays", x.in(1), 1);
-        due("size(1)", x.size(1), 61);
-        due("at(1, 60)", Check.at(x, 1, 60), 99);
-        due("at(1, 59)", Check.at(x, 1, 59), 60);
-        due("change with 61 of the one before", x.change(2), FULL);
-        due("change with none", x.change(3), 0);
-        due("in(3)", x.in(3), NONE);
+        x.due(x.change(0), 60);
+        x.due(x.at(0, 0), 1);
+        x.due(x.at(0, 59), 60);
+        x.due(x.put(0, 1), FULL);
+        for (int i = 1; i < 4; i++) {
+            x.due(x.change(i), FULL);
+            x.due(x.in(i), i);
+            x.due(x.size(i), 61);
+        }
+        x.due(x.at(1, 60), 99);
+        x.due(x.put(1, 1), STATE);
     }
 
-    private static void packOrder() {
-        ObjectStreams x = withValues(6);
-        for (int most : new int[] {0, 11, -1, Integer.MIN_VALUE, Integer.MAX_VALUE}) {
-            due("pack(" + most + ")", x.pack(most), BAD);
-        }
-        due("pack(10) of none", x.pack(10), 0);
-        putAll(x, 0, 7, 7);
-        putAll(x, 1, 1, 2, 3);
-        putAll(x, 2, 7, 7, 8, 8);
-        putAll(x, 3, 7, 9);
-        putAll(x, 4, 7, 9, 1);
-        putAll(x, 5, 2);
-        due("pack(10)", x.pack(10), 1);
-        // behind 0: 3 and 5 have one byte to write; behind 3: 4 and 5; behind 4: 5; behind 5: 1 has 3, 2 has 4
-        octets("order", x, 0,
-            0, 0, 0, 0, 0, 3, 0, 4, 0, 4, 0, 7, 0, 5, 0, 10, 0, 1, 0, 13, 0, 2, 0, 18,
-            0, 2, 7, 7, 1, 1, 9, 2, 1, 1, 0, 1, 2, 0, 3, 1, 2, 3, 0, 4, 7, 7, 8, 8);
-        int[] index = {0, 4, 5, 1, 2, 3};
-        for (int i = 0; i < 6; i++) {
-            due("in(" + i + ")", x.in(i), index[i]);
-        }
-        bytes("packed", x, 0, 7, 7);
-        bytes("packed", x, 1, 1, 2, 3);
-        bytes("packed", x, 2, 7, 7, 8, 8);
-        bytes("packed", x, 4, 7, 9, 1);
-        due("pack(10) again", x.pack(10), 0);
-
-        ObjectStreams alike = withValues(4);
-        putAll(alike, 1, 5, -5, 6);
-        putAll(alike, 2, 5, -5);
-        putAll(alike, 3, 5, -5, 6);
-        due("pack of like ones", alike.pack(3), 1);
-        octets("like ones", alike, 0, 0, 1, 0, 0, 0, 2, 0, 5, 0, 3, 0, 7, 0, 3, 5, -5, 6, 2, 0, 2, 1, 6);
-        bytes("like ones", alike, 2, 5, -5);
-        bytes("like ones", alike, 3, 5, -5, 6);
+    private static void changeOfLost() {
+        about("4: One that is LOST becomes OWN without bytes: NONE");
+        Bench x = packed();
+        x.due(x.row(0, 0, 1), 1);
+        x.due(x.change(0), NONE);
+        x.due(x.in(0), NONE);
+        x.bytesDue(0);
+        x.due(x.put(0, 9), 1);
+        x.bytesDue(0, 9);
+        x.due(x.row(0, 0, 99), 0);
+        x.due(x.change(0), NONE);
+        x.bytesDue(0);
+        x.due(x.row(0, 0, 0), 0);
+        x.bytesDue(0, 1, 2, 3);
     }
 
-    private static void packMost() {
-        ObjectStreams x = withValues(7);
-        for (int i = 0; i < 7; i++) {
-            putAll(x, i, i, i);
+    private static void pack() {
+        about("5: All are packed: how many PACKS were made");
+        Bench x = benchOfOneByte(11);
+        x.raw(0, 0);
+        x.due(x.pack(10), 2);
+        x.due(x.count(1), 3);
+        x.due(x.count(2), 11);
+        x.due(x.in(0), 100);
+        x.due(x.in(9), 109);
+        x.due(x.in(10), 200);
+        x.due(x.find(0, 2), NONE);
+        x.due(x.pack(10), 0);
+        x.due(x.count(1), 3);
+
+        about("5: BAD when most is not 1 .. 10");
+        Bench y = benchOfOneByte(12);
+        for (int most : new int[] {0, 11, -1, 12, 256, 65536, LEAST, GREATEST}) {
+            y.due(y.pack(most), BAD);
         }
-        due("pack(3)", x.pack(3), 3);
-        for (int i = 0; i < 7; i++) {
-            due("in(" + i + ")", x.in(i), 100 * (i / 3) + i % 3);
-        }
-        octets("the last", x, 2, 0, 6, 0, 0, 0, 2, 6, 6);
-        due("count(1)", x.count(1), 3);
-        due("read(1)", x.read(1), 3);
-
-        ObjectStreams one = withValues(2);
-        putAll(one, 0, 1);
-        putAll(one, 1, 1);
-        due("pack(1)", one.pack(1), 2);
-        octets("alone", one, 1, 0, 1, 0, 0, 0, 1, 1);
-
-        ObjectStreams eleven = withValues(11);
-        for (int i = 0; i < 11; i++) {
-            putAll(eleven, i, 1);
-        }
-        due("pack(10) of 11", eleven.pack(10), 2);
-        due("in(9)", eleven.in(9), 9);
-        due("in(10)", eleven.in(10), 100);
-    }
-
-    private static void packOctets() {
-        ObjectStreams x = broad(10, 54);
-        due("pack to 600 bytes", x.pack(10), 1);
-        due("count(4)", x.count(4), 600 + 124);
-        due("in(9)", x.in(9), 109);
-        due("octet(1, 599)", Check.octet(x, 1, 599), 0);
-        due("octet(1, 600)", Check.octet(x, 1, 600), THROWS);
-        due("size(9)", x.size(9), 54);
-        due("at(9, 0)", Check.at(x, 9, 0), 109);
-
-        ObjectStreams y = broad(10, 54);
-        due("put(9, 1)", y.put(9, (byte) 1), 55);
-        due("pack to 601 bytes", y.pack(10), 2);
-        due("in(8)", y.in(8), 108);
-        due("in(9)", y.in(9), 200);
-        due("count(4)", y.count(4), 124 + 540 + 61);
-        due("pair(1, 8, 0)", y.pair(1, 8, 0), 8);
-        due("pair(1, 9, 0)", y.pair(1, 9, 0), NONE);
-
-        ObjectStreams z = broad(20, 60);
-        due("pack of 20 with 60 bytes", z.pack(10), 3);
-        due("in(8)", z.in(8), 108);
-        due("in(9)", z.in(9), 200);
-        due("in(18)", z.in(18), 300);
-        due("size(18)", z.size(18), 60);
+        y.due(y.count(1), 0);
+        y.due(y.count(2), 0);
+        y.due(y.pack(1), 12);
+        y.due(y.pack(0), BAD);
+        y.due(y.change(3), 1);
+        y.due(y.pack(10), 1);
     }
 
     private static void packFull() {
-        ObjectStreams x = withValues(22);
+        about("5: FULL (and nothing is packed) when there would be more than 20");
+        Bench x = benchOfOneByte(21);
+        x.due(x.pack(1), FULL);
+        x.due(x.count(1), 0);
+        x.due(x.count(2), 0);
+        x.due(x.count(4), 0);
         for (int i = 0; i < 21; i++) {
-            putAll(x, i, i);
+            x.due(x.in(i), NONE);
+            x.due(x.at(i, 0), i);
         }
-        due("pack(1) of 21", x.pack(1), FULL);
-        due("count(1)", x.count(1), 0);
-        due("count(2)", x.count(2), 0);
-        for (int i = 0; i < 21; i++) {
-            due("in(" + i + ")", x.in(i), NONE);
-        }
-        bytes("not packed", x, 20, 20);
-        due("raw", x.raw(0, 0), 0);
-        due("pack(2) of 21", x.pack(2), 11);
-        due("count(1)", x.count(1), 12);
+        x.due(x.put(20, 5), 2);
+        x.due(x.raw(0, 0), 0);
+        x.due(x.pack(2), 11);
+        x.due(x.count(1), 12);
+        x.due(x.in(20), 1100);
         for (int p = 12; p < 20; p++) {
-            due("raw", x.raw(0, 0), p);
+            x.due(x.raw(0, 0), p);
         }
-        due("pack(1) of none, all packs there", x.pack(1), 0);
-        due("pack(11), all packs there", x.pack(11), BAD);
-        putAll(x, 21, 1);
-        due("pack(1) of one, all packs there", x.pack(1), FULL);
-        due("in(21)", x.in(21), NONE);
+        x.due(x.pack(1), 0);
+        x.due(x.pack(11), BAD);
+        x.due(x.object(0), 21);
+        x.due(x.pack(1), 0);
+        x.due(x.put(21, 1), 1);
+        x.due(x.pack(1), FULL);
+        x.due(x.in(21), NONE);
+        x.bytesDue(21, 1);
 
-        ObjectStreams y = withValues(20);
-        for (int i = 0; i < 20; i++) {
-            putAll(y, i, i);
-        }
-        due("pack(1) of 20", y.pack(1), 20);
-        due("in(19)", y.in(19), 1900);
+        Bench y = benchOfOneByte(20);
+        y.due(y.pack(1), 20);
+        y.due(y.in(0), 0);
+        y.due(y.in(19), 1900);
+
+        Bench one = benchOfOneByte(20);
+        one.due(one.raw(0, 0), 0);
+        one.due(one.pack(1), FULL);
+        one.due(one.count(1), 1);
+        one.due(one.pack(2), 10);
     }
 
-    private static void packLeavesOut() {
-        ObjectStreams x = withValues(3);
-        due("object(1)", x.object(1), 3);
-        x.raw(1, 4);
-        addAll(x, 0, 0, 1, 0, 0, 0, 1, 9);
-        due("row(1, 0, 0)", x.row(1, 0, 0), 0);
-        putAll(x, 2, 4);
-        putAll(x, 3, 4);
-        due("pack(10)", x.pack(10), 1);
-        octets("the only one", x, 1, 0, 2, 0, 0, 0, 1, 4);
-        due("an empty one", x.in(0), NONE);
-        due("one that is in a pack", x.in(1), 0);
-        due("a stream", x.in(3), NONE);
-        due("a new pack extends none", x.find(1, 1), NONE);
-        due("change(1)", x.change(1), 1);
-        due("pack(10) of the changed one", x.pack(10), 1);
-        octets("the changed one", x, 2, 0, 1, 0, 0, 0, 1, 9);
-    }
+    private static void size() {
+        about("6: How many bytes an object has");
+        Bench x = packed();
+        x.due(x.size(0), 3);
+        x.due(x.size(1), 4);
+        x.due(x.size(2), 1);
+        x.due(x.object(0), 3);
+        x.due(x.size(3), 0);
 
-    private static void sizeAndLost() {
-        ObjectStreams x = withValues(6);
-        due("object(1)", x.object(1), 6);
-        for (int n : NO_NUMBER) {
-            due("size(" + n + ")", x.size(n), BAD);
+        about("6: BAD");
+        for (int n : Bench.NO_NUMBER) {
+            x.due(x.size(n), BAD);
         }
-        due("size(7)", x.size(7), BAD);
-        x.raw(3, 12);
-        addAll(x, 0, 0, 0, 0, 0, 0, 1, 0, 2, 0, 2, 0, 9);
-        addAll(x, 0, 0, 0, 0, 1, 7);
-        for (int i = 0; i < 3; i++) {
-            due("row(" + i + ")", x.row(i, 0, i), 0);
-        }
-        bytes("content without bytes", x, 0);
-        bytes("content with one", x, 1, 7);
-        due("no content", x.size(2), NONE);
-        due("row(3, 0, 1)", x.row(3, 0, 1), 0);
-        due("the pair of another", x.size(3), NONE);
-        due("row(4, 0, 3)", x.row(4, 0, 3), 0);
-        due("no pair", x.size(4), NONE);
-        due("count(3)", x.count(3), 3);
-        addAll(x, 0, 0, 0, 0, 0, 0, 2, 8, 9);
-        bytes("content that came later", x, 2, 8, 9);
-        due("count(3)", x.count(3), 2);
-        x.raw(1, 3);
-        addAll(x, 1, 0, 5, 0, 0, 0, 0);
-        due("row(5, 1, 0)", x.row(5, 1, 0), 0);
-        due("a pair over FIRST", x.size(5), NONE);
-        due("size of a stream", x.size(6), 0);
+        x.due(x.size(4), BAD);
+        x.due(bench(0).size(0), BAD);
+
+        about("6: NONE when it is LOST");
+        x.due(x.row(0, 0, 1), 1);
+        x.due(x.size(0), NONE);
+        x.due(x.row(0, 0, 2), 1);
+        x.due(x.size(0), NONE);
+        x.due(x.change(0), NONE);
+        x.due(x.size(0), 0);
     }
 
     private static void at() {
-        ObjectStreams x = withValues(3);
-        putAll(x, 0, 1, -1);
-        putAll(x, 1, 1, -1, 3);
-        for (int n : NO_NUMBER) {
-            due("at(" + n + ", 0)", Check.at(x, n, 0), THROWS);
-            due("at(0, " + n + ")", Check.at(x, 0, n), THROWS);
+        about("7: Byte i of an object");
+        Bench x = packed();
+        x.bytesDue(0, 1, 2, 3);
+        x.bytesDue(1, 1, 2, 4, 5);
+        x.bytesDue(2, 6);
+        Bench signs = bench(2);
+        signs.putAll(0, -128, 127, -1);
+        signs.putAll(1, -128, 127, -2);
+        signs.bytesDue(1, -128, 127, -2);
+        signs.pack(2);
+        signs.bytesDue(0, -128, 127, -1);
+        signs.bytesDue(1, -128, 127, -2);
+    }
+
+    private static void atThrows() {
+        about("7: ArrayIndexOutOfBoundsException: there is no such object");
+        Bench x = packed();
+        for (int n : Bench.NO_NUMBER) {
+            x.due(x.at(n, 0), THROWS);
         }
-        due("at(3, 0)", Check.at(x, 3, 0), THROWS);
-        bytes("own", x, 0, 1, -1);
-        bytes("own, none", x, 2);
-        x.pack(2);
-        bytes("in a pack", x, 0, 1, -1);
-        bytes("in a pack, with some of the one before", x, 1, 1, -1, 3);
-        due("at(1, -1)", Check.at(x, 1, -1), THROWS);
-        due("at(1, MAX)", Check.at(x, 1, Integer.MAX_VALUE), THROWS);
-        x.row(0, 0, 1);
-        due("at of a lost one", Check.at(x, 0, 0), THROWS);
-        due("at(NONE) of a lost one", Check.at(x, 0, NONE), THROWS);
+        x.due(x.at(3, 0), THROWS);
+        x.due(bench(0).at(0, 0), THROWS);
+
+        about("7: it is LOST");
+        x.due(x.row(0, 0, 1), 1);
+        x.due(x.at(0, 0), THROWS);
+        x.due(x.at(0, NONE), THROWS);
+        x.due(x.at(0, -2), THROWS);
+        x.due(x.row(0, 0, 0), 1);
+        x.due(x.at(0, 0), 1);
+
+        about("7: or has none such");
+        x.due(x.object(0), 3);
+        for (int object = 0; object < 4; object++) {
+            for (int i : new int[] {-1, -2, 4, 60, 65536, LEAST, GREATEST, GREATEST - 1}) {
+                x.due(x.at(object, i), THROWS);
+            }
+        }
+        x.due(x.at(0, 3), THROWS);
+        x.due(x.at(1, 3), 5);
+        x.due(x.at(2, 1), THROWS);
+        x.due(x.at(3, 0), THROWS);
     }
 
     private static void in() {
-        ObjectStreams x = withValues(2);
-        for (int n : NO_NUMBER) {
-            due("in(" + n + ")", x.in(n), BAD);
-        }
-        due("in(2)", x.in(2), BAD);
-        due("in(0)", x.in(0), NONE);
+        about("8: The PACK in which an object is, 100 times that, and its INDEX");
+        Bench x = bench(1);
         for (int p = 0; p < 20; p++) {
             x.raw(0, 0);
         }
-        due("row(0, 19, 99)", x.row(0, 19, 99), 0);
-        due("in(0)", x.in(0), 1999);
-        due("row(0, 0, 0)", x.row(0, 0, 0), 1);
-        due("in(0)", x.in(0), 0);
-        due("change(0)", x.change(0), NONE);
-        due("in(0)", x.in(0), NONE);
+        for (int pack : new int[] {0, 1, 19}) {
+            for (int index : new int[] {0, 1, 99}) {
+                x.row(0, pack, index);
+                x.due(x.in(0), 100 * pack + index);
+            }
+        }
+
+        about("8: NONE when it is OWN");
+        x.due(x.change(0), NONE);
+        x.due(x.in(0), NONE);
+        x.due(x.object(1), 1);
+        x.due(x.in(1), NONE);
+
+        about("8: BAD");
+        for (int n : Bench.NO_NUMBER) {
+            x.due(x.in(n), BAD);
+        }
+        x.due(x.in(2), BAD);
+        x.due(bench(0).in(0), BAD);
     }
 
     private static void raw() {
-        ObjectStreams x = new ObjectStreams();
-        for (int n : new int[] {-1, 100, Integer.MIN_VALUE, Integer.MAX_VALUE}) {
-            due("raw(" + n + ", 0)", x.raw(n, 0), BAD);
+        about("9: A PACK without bytes: its number");
+        Bench x = bench(1);
+        x.due(x.put(0, 1), 1);
+        x.due(x.raw(0, 0), 0);
+        x.due(x.pack(1), 1);
+        x.due(x.raw(99, 600), 2);
+        x.due(x.octet(0, 0), THROWS);
+        x.due(x.octet(2, 0), THROWS);
+        x.due(x.count(4), 7);
+        x.due(x.find(0, 2), NONE);
+        x.due(x.read(0), 0);
+        x.toldDue();
+        x.due(x.read(2), 0);
+        x.due(x.told(NONE, 0), 99);
+    }
+
+    private static void rawRefused() {
+        about("9: BAD when count is not 0 .. 99");
+        Bench x = bench(0);
+        for (int count : new int[] {-1, 100, 256, 65536, LEAST, GREATEST}) {
+            x.due(x.raw(count, 0), BAD);
+            x.due(x.raw(count, 600), BAD);
         }
-        for (int n : new int[] {-1, 601, Integer.MIN_VALUE, Integer.MAX_VALUE}) {
-            due("raw(0, " + n + ")", x.raw(0, n), BAD);
+        x.due(x.count(1), 0);
+        x.due(x.raw(0, 4), 0);
+        x.due(x.raw(99, 4), 1);
+
+        about("9: first not 0 .. 600");
+        for (int first : new int[] {-1, 601, 65536, LEAST, GREATEST}) {
+            x.due(x.raw(0, first), BAD);
+            x.due(x.raw(99, first), BAD);
         }
-        due("raw(0, 0)", x.raw(0, 0), 0);
-        due("raw(99, 600)", x.raw(99, 600), 1);
-        due("read(0)", x.read(0), 0);
-        due("told", x.told(NONE, 0), 0);
-        due("read(1)", x.read(1), 0);
-        due("told", x.told(NONE, 0), 99);
-        due("octet(1, 0)", Check.octet(x, 1, 0), THROWS);
-        for (int p = 2; p < 20; p++) {
-            due("raw", x.raw(1, 1), p);
+        x.due(x.count(1), 2);
+        x.due(x.raw(1, 0), 2);
+        x.due(x.raw(1, 600), 3);
+
+        about("9: FULL");
+        for (int p = 4; p < 20; p++) {
+            x.due(x.raw(1, 1), p);
         }
-        due("raw as the 21st", x.raw(1, 1), FULL);
-        due("raw(100, 0) as the 21st", x.raw(100, 0), BAD);
-        due("count(1)", x.count(1), 20);
-        due("add(20, 1)", x.add(20, (byte) 1), BAD);
+        x.due(x.raw(1, 1), FULL);
+        x.due(x.raw(100, 1), BAD);
+        x.due(x.raw(1, 601), BAD);
+        x.due(x.count(1), 20);
+        x.due(x.add(19, 1), 1);
+        x.due(x.add(20, 1), BAD);
+        Bench packs = benchOfOneByte(20);
+        packs.due(packs.pack(1), 20);
+        packs.due(packs.raw(1, 1), FULL);
     }
 
     private static void add() {
-        ObjectStreams x = new ObjectStreams();
-        due("add(0, 1)", x.add(0, (byte) 1), BAD);
-        x.raw(0, 0);
-        x.raw(0, 0);
-        for (int n : NO_NUMBER) {
-            due("add(" + n + ", 1)", x.add(n, (byte) 1), BAD);
-        }
-        due("add(2, 1)", x.add(2, (byte) 1), BAD);
-        due("add(1, -128)", x.add(1, (byte) -128), 1);
-        due("add(1, 127)", x.add(1, (byte) 127), 2);
-        octets("added", x, 1, -128, 127);
-        octets("not added", x, 0);
+        about("10: A byte behind a PACK's: how many it has");
+        Bench x = packed();
+        x.due(x.raw(0, 0), 1);
+        x.due(x.raw(0, 0), 2);
+        x.due(x.add(1, -128), 1);
+        x.due(x.add(1, 127), 2);
+        x.octetsDue(1, -128, 127);
+        x.octetsDue(2);
+        x.due(x.add(0, 9), 18);
+        x.due(x.octet(0, 17), 9);
+        x.due(x.count(4), 20);
 
-        ObjectStreams full = broad(10, 54);
-        due("pack to 600", full.pack(10), 1);
-        due("add behind 600", full.add(1, (byte) 1), FULL);
-        due("count(4)", full.count(4), 724);
-        due("add(0, 1)", full.add(0, (byte) 1), 125);
-
-        ObjectStreams nearly = broad(9, 60);
-        due("pack to 594", nearly.pack(10), 1);
-        for (int i = 594; i < 600; i++) {
-            due("add(1, " + i + ")", nearly.add(1, (byte) i), i + 1);
+        about("10: BAD when there is no such PACK");
+        for (int n : Bench.NO_NUMBER) {
+            x.due(x.add(n, 1), BAD);
         }
-        due("add behind 600", nearly.add(1, (byte) 1), FULL);
-        due("octet(1, 599)", Check.octet(nearly, 1, 599), (byte) 599);
+        x.due(x.add(3, 1), BAD);
+        x.due(x.add(20, 1), BAD);
+        x.due(bench(0).add(0, 1), BAD);
+
+        about("10: FULL when it has 600");
+        Bench full = Bench.broad(CHECK, 10, 54);
+        full.due(full.pack(10), 1);
+        full.due(full.add(1, 1), FULL);
+        full.due(full.add(1, 2), FULL);
+        full.due(full.octet(1, 599), 0);
+        full.due(full.octet(1, 600), THROWS);
+        full.due(full.count(4), 724);
+        full.due(full.add(0, 1), 125);
+        Bench nearly = Bench.broad(CHECK, 9, 60);
+        nearly.due(nearly.pack(10), 1);
+        nearly.addAll(1, 1, 2, 3, 4, 5);
+        nearly.due(nearly.add(1, 6), 600);
+        nearly.due(nearly.add(1, 7), FULL);
+        nearly.due(nearly.octet(1, 599), 6);
     }
 
     private static void octet() {
-        ObjectStreams x = new ObjectStreams();
-        due("octet(0, 0)", Check.octet(x, 0, 0), THROWS);
-        x.raw(0, 0);
-        addAll(x, 0, 3, -3);
-        for (int n : NO_NUMBER) {
-            due("octet(" + n + ", 0)", Check.octet(x, n, 0), THROWS);
-            due("octet(0, " + n + ")", Check.octet(x, 0, n), THROWS);
+        about("11: Byte i of a PACK");
+        Bench x = packed();
+        x.octetsDue(0, 0, 0, 0, 0, 0, 1, 0, 5, 0, 3, 1, 2, 3, 2, 2, 4, 5);
+        x.due(x.raw(9, 2), 1);
+        x.addAll(1, 3, -3, -128);
+        x.octetsDue(1, 3, -3, -128);
+
+        about("11: ArrayIndexOutOfBoundsException: there is no such PACK");
+        for (int n : Bench.NO_NUMBER) {
+            x.due(x.octet(n, 0), THROWS);
         }
-        due("octet(1, 0)", Check.octet(x, 1, 0), THROWS);
-        due("octet(0, 600)", Check.octet(x, 0, 600), THROWS);
-        octets("octet", x, 0, 3, -3);
+        x.due(x.octet(2, 0), THROWS);
+        x.due(bench(0).octet(0, 0), THROWS);
+
+        about("11: or it has none such");
+        x.due(x.raw(9, 600), 2);
+        for (int i : new int[] {-1, -2, 3, 599, 600, 65536, LEAST, GREATEST}) {
+            x.due(x.octet(1, i), THROWS);
+        }
+        x.due(x.octet(0, 16), 5);
+        x.due(x.octet(0, 17), THROWS);
+        x.due(x.octet(2, 0), THROWS);
+    }
+
+    /** Packs 0, 1, .. each with one pair, of the object with its own number. */
+    private static Bench packsOfOne(int packs) {
+        Bench x = bench(0);
+        for (int p = 0; p < packs; p++) {
+            x.due(x.raw(1, 4), p);
+            x.addAll(p, 0, p, 0, 0);
+        }
+        return x;
     }
 
     private static void extend() {
-        ObjectStreams x = new ObjectStreams();
-        due("extend(0, NONE) of no pack", x.extend(0, NONE), BAD);
-        for (int p = 0; p < 4; p++) {
-            x.raw(1, 4);
-            addAll(x, p, 0, p, 0, 0);
-        }
-        for (int n : NO_NUMBER) {
-            due("extend(" + n + ", 0)", x.extend(n, 0), BAD);
-            due("extend(" + n + ", NONE)", x.extend(n, NONE), BAD);
-            due("extend(0, " + n + ")", x.extend(0, n), n == NONE ? 1 : BAD);
-        }
-        due("extend(4, 0)", x.extend(4, 0), BAD);
-        due("extend(0, 4)", x.extend(0, 4), BAD);
-        due("extend(0, 0)", x.extend(0, 0), 0);
-        due("extend(0, 1)", x.extend(0, 1), 1);
-        due("extend(1, 0)", x.extend(1, 0), 0);
-        due("extend(1, 2)", x.extend(1, 2), 1);
-        due("extend(2, 0)", x.extend(2, 0), 0);
-        due("extend(2, 1)", x.extend(2, 1), 0);
-        due("extend(1, 1)", x.extend(1, 1), 0);
-        due("what was is still", x.find(2, 0), 200);
-        due("what was not done", x.find(0, 2), NONE);
-        due("extend(0, 3) in place of 1", x.extend(0, 3), 1);
-        due("3 is found", x.find(3, 0), 300);
-        due("1 is not found", x.find(1, 0), NONE);
-        due("extend(2, 0) is no way to itself now", x.extend(2, 0), 1);
-        due("1, 2, 0, 3", x.find(3, 1), 300);
-        due("extend(3, 1)", x.extend(3, 1), 0);
-        due("extend(2, 9)", x.extend(2, 9), BAD);
-        due("BAD does nothing", x.find(3, 2), 300);
-        due("extend(2, NONE)", x.extend(2, NONE), 1);
-        due("it extends none", x.find(3, 2), NONE);
-        due("extend(2, NONE) again", x.extend(2, NONE), 1);
+        about("12: A PACK extends another one: 1");
+        Bench x = packsOfOne(4);
+        x.due(x.extend(0, 1), 1);
+        x.due(x.find(1, 0), 100);
+        x.due(x.find(0, 1), NONE);
+        x.due(x.extend(2, 1), 1);
+        x.due(x.find(1, 2), 100);
+        x.due(x.extend(2, 1), 1);
 
-        ObjectStreams chain = new ObjectStreams();
-        for (int p = 0; p < 20; p++) {
-            chain.raw(1, 4);
-        }
+        about("12: in place of what it extended");
+        x.due(x.extend(0, 3), 1);
+        x.due(x.find(3, 0), 300);
+        x.due(x.find(1, 0), NONE);
+        x.due(x.find(1, 2), 100);
+
+        about("12: NONE: none");
+        x.due(x.extend(0, NONE), 1);
+        x.due(x.find(3, 0), NONE);
+        x.due(x.extend(0, NONE), 1);
+        x.due(x.find(0, 0), 0);
+        x.due(x.extend(3, 0), 1);
+    }
+
+    private static void extendItself() {
+        about("12: 0, and nothing is done, when it would extend itself by some way");
+        Bench x = packsOfOne(4);
+        x.due(x.extend(0, 0), 0);
+        x.due(x.extend(0, 1), 1);
+        x.due(x.extend(0, 0), 0);
+        x.due(x.find(1, 0), 100);
+        x.due(x.extend(1, 0), 0);
+        x.due(x.find(0, 1), NONE);
+        x.due(x.extend(1, 2), 1);
+        x.due(x.extend(2, 0), 0);
+        x.due(x.extend(2, 1), 0);
+        x.due(x.extend(1, 0), 0);
+        x.due(x.extend(1, 1), 0);
+        x.due(x.find(2, 0), 200);
+        x.due(x.find(0, 2), NONE);
+        x.due(x.extend(0, 3), 1);
+        x.due(x.extend(2, 0), 1);
+        x.due(x.find(3, 1), 300);
+        x.due(x.extend(3, 1), 0);
+        x.due(x.extend(2, NONE), 1);
+        x.due(x.extend(3, 1), 1);
+
+        Bench chain = packsOfOne(20);
         for (int p = 0; p < 19; p++) {
-            due("a chain", chain.extend(p, p + 1), 1);
+            chain.due(chain.extend(p, p + 1), 1);
         }
-        due("a ring of all", chain.extend(19, 0), 0);
-        addAll(chain, 19, 0, 7, 0, 0);
-        due("find over all", chain.find(7, 0), 1900);
+        chain.due(chain.find(19, 0), 1900);
+        for (int p = 0; p < 20; p++) {
+            chain.due(chain.extend(19, p), 0);
+        }
+        chain.due(chain.find(0, 19), NONE);
+        chain.due(chain.extend(0, 19), 1);
+        chain.due(chain.find(1, 0), NONE);
+        chain.due(chain.extend(19, 1), 0);
+        chain.due(chain.extend(19, 0), 0);
+    }
+
+    private static void extendRefused() {
+        about("12: BAD");
+        Bench x = packsOfOne(2);
+        x.due(x.extend(0, 1), 1);
+        for (int n : Bench.NO_NUMBER) {
+            x.due(x.extend(n, 0), BAD);
+            x.due(x.extend(n, NONE), BAD);
+            x.due(x.extend(n, n), BAD);
+            if (n != NONE) {
+                x.due(x.extend(0, n), BAD);
+            }
+        }
+        x.due(x.extend(2, 0), BAD);
+        x.due(x.extend(0, 2), BAD);
+        x.due(x.extend(2, 2), BAD);
+        x.due(x.find(1, 0), 100);
+        Bench none = bench(0);
+        none.due(none.extend(0, 0), BAD);
+        none.due(none.extend(0, NONE), BAD);
     }
 
     private static void row() {
-        ObjectStreams x = withValues(2);
-        due("object(1)", x.object(1), 2);
-        due("row without packs", x.row(0, 0, 0), BAD);
+        about("13: An object is IN a PACK at an INDEX from now on (its own bytes are gone)");
+        Bench x = bench(1);
         x.raw(1, 4);
-        addAll(x, 0, 0, 0, 0, 0, 0, 1, 5);
-        putAll(x, 0, 1, 2, 3);
-        putAll(x, 2, 1);
-        for (int n : NO_NUMBER) {
-            due("row(" + n + ", 0, 0)", x.row(n, 0, 0), BAD);
-            due("row(0, " + n + ", 0)", x.row(0, n, 0), BAD);
+        x.addAll(0, 0, 0, 0, 0, 0, 1, 5);
+        x.putAll(0, 1, 2, 3);
+        x.due(x.row(0, 0, 99), 0);
+        x.due(x.in(0), 99);
+        x.due(x.size(0), NONE);
+        x.due(x.change(0), NONE);
+        x.bytesDue(0);
+        x.putAll(0, 1, 2, 3);
+        x.due(x.row(0, 0, 0), 0);
+        x.bytesDue(0, 5);
+        x.due(x.change(0), 1);
+        x.bytesDue(0, 5);
+        x.octetsDue(0, 0, 0, 0, 0, 0, 1, 5);
+
+        about("13: 1 if it was IN one before, else 0");
+        x.due(x.row(0, 0, 0), 0);
+        x.due(x.row(0, 0, 0), 1);
+        x.due(x.row(0, 0, 98), 1);
+        x.due(x.row(0, 0, 1), 1);
+        x.due(x.change(0), NONE);
+        x.due(x.row(0, 0, 1), 0);
+        Bench packed = packed();
+        packed.due(packed.row(1, 0, 1), 1);
+    }
+
+    private static void rowRefused() {
+        about("13: BAD when there is no such object or PACK");
+        Bench x = packed();
+        for (int n : Bench.NO_NUMBER) {
+            x.due(x.row(n, 0, 0), BAD);
+            x.due(x.row(0, n, 0), BAD);
         }
-        for (int n : new int[] {-1, 100, Integer.MIN_VALUE, Integer.MAX_VALUE}) {
-            due("row(0, 0, " + n + ")", x.row(0, 0, n), BAD);
+        x.due(x.row(3, 0, 0), BAD);
+        x.due(x.row(0, 1, 0), BAD);
+        x.due(bench(1).row(0, 0, 0), BAD);
+        Bench noObject = bench(0);
+        noObject.raw(1, 4);
+        noObject.due(noObject.row(0, 0, 0), BAD);
+
+        about("13: it is a STREAM");
+        x.due(x.row(2, 0, 0), BAD);
+        x.due(x.row(2, 0, 99), BAD);
+        x.due(x.in(2), NONE);
+        x.bytesDue(2, 6);
+
+        about("13: or index not 0 .. 99");
+        x.due(x.change(0), 3);
+        for (int index : new int[] {-1, 100, 256, 65536, LEAST, GREATEST}) {
+            x.due(x.row(0, 0, index), BAD);
         }
-        due("row of a stream", x.row(2, 0, 0), BAD);
-        bytes("BAD does nothing", x, 0, 1, 2, 3);
-        bytes("nor to a stream", x, 2, 1);
-        due("in(2)", x.in(2), NONE);
-        due("row(0, 0, 99)", x.row(0, 0, 99), 0);
-        due("in(0)", x.in(0), 99);
-        due("size(0)", x.size(0), NONE);
-        due("row(0, 0, 0)", x.row(0, 0, 0), 1);
-        bytes("rowed", x, 0, 5);
-        due("row(0, 0, 0) again", x.row(0, 0, 0), 1);
-        due("row(0, 0, 1)", x.row(0, 0, 1), 1);
-        due("change(0)", x.change(0), NONE);
-        bytes("own bytes are gone", x, 0);
+        x.due(x.in(0), NONE);
+        x.bytesDue(0, 1, 2, 3);
+        x.due(x.row(0, 0, 99), 0);
+        x.due(x.row(0, 0, 100), BAD);
+        x.due(x.in(0), 99);
+        x.due(x.row(0, 0, 0), 1);
+        x.due(x.in(0), 0);
     }
 
     private static void read() {
-        ObjectStreams x = withValues(2);
-        due("object(1)", x.object(1), 2);
-        x.raw(9, 32);
-        addAll(x, 0, 0, 0, 0, 0, 0, 2, 0, 0, 0, 3, 0, 0, 0, 0, 0, 0);
-        addAll(x, 0, 0, 1, 9, 9, 0, 1, 0, 0, 0, 3, 9, 9, 1, 0, 0, 0);
-        addAll(x, 0, 0, 2, 4, 5);
-        for (int n : NO_NUMBER) {
-            due("read(" + n + ")", x.read(n), BAD);
+        about("14: How many PAIRS of a PACK have CONTENT and are TRUE");
+        Bench x = packed();
+        x.due(x.read(0), 2);
+        x.toldDue();
+        x.due(x.change(0), 3);
+        x.due(x.row(1, 0, 0), 1);
+        x.due(x.read(0), 2);
+        x.due(x.in(0), NONE);
+        x.due(x.in(1), 0);
+        Bench broken = bench(3);
+        broken.raw(4, 12);
+        broken.addAll(0, 0, 0, 0, 0, 0, 1, 0, 4, 0, 2, 0, 7, 0, 2, 8, 9, 2, 1, 5, 4, 0);
+        broken.due(broken.read(0), 2);
+        broken.toldDue(2, 2, 1, 3);
+
+        about("14: BAD");
+        for (int n : Bench.NO_NUMBER) {
+            x.due(x.read(n), BAD);
         }
-        due("read(1)", x.read(1), BAD);
-        due("read(0)", x.read(0), 1);
-        // Pair 5 is of object 1, of which pair 4 is, though without content; pair 7 is of object 256.
-        allTold("read", x, 4, 1, 3, 2, 5, 3, 2, 4, 5, 5, 2, 6, 3, 7, 1, 8);
-        due("a new object", x.object(0), 3);
-        due("read(0) with it", x.read(0), 2);
-        allTold("read with it", x, 4, 1, 5, 3, 2, 4, 5, 5, 2, 6, 3, 7, 1, 8);
-        due("BAD", x.read(7), BAD);
-        allTold("read after BAD", x, 4, 1, 5, 3, 2, 4, 5, 5, 2, 6, 3, 7, 1, 8);
-
-        ObjectStreams again = new ObjectStreams();
-        again.object(1);
-        again.raw(3, 12);
-        addAll(again, 0, 0, 0, 0, 0, 0, 0, 0, 0, 0, 1, 0, 0, 0, 0);
-        due("a stream twice", again.read(0), 0);
-        allTold("a stream twice", again, 4, 0, 4, 1, 3, 2);
-        due("an object for the third", again.object(0), 1);
-        due("with it", again.read(0), 1);
-
-        ObjectStreams behind = withValues(3);
-        behind.raw(3, 12);
-        addAll(behind, 0, 0, 0, 0, 0, 0, 1, 0, 4, 0, 2, 0, 7);
-        addAll(behind, 0, 0, 2, 8, 9, 2, 1, 5, 4, 0);
-        due("s of 2 behind 2, s of 4 behind 3", behind.read(0), 2);
-        allTold("s of 4 behind 3", behind, 2, 2);
-
-        ObjectStreams own = withValues(1);
-        putAll(own, 0, 9, 9);
-        own.raw(1, 4);
-        addAll(own, 0, 0, 0, 0, 0, 0, 1, 3);
-        due("of an object that is OWN", own.read(0), 1);
-        due("it stays so", own.in(0), NONE);
+        x.due(x.read(1), BAD);
+        x.due(bench(0).read(0), BAD);
     }
 
-    private static void readNotThere() {
-        ObjectStreams x = withValues(2);
-        x.raw(2, 8);
-        addAll(x, 0, 0, 0, 0, 0, 0, 1, 0);
-        due("read with 7 bytes", x.read(0), 0);
-        allTold("7 bytes", x, 2, 0, 1, 1);
-        addAll(x, 0, 0);
-        due("read with 8 bytes", x.read(0), 0);
-        allTold("8 bytes", x, 2, 0, 2, 1);
-        addAll(x, 0, 0);
-        due("read with s alone", x.read(0), 0);
-        allTold("9 bytes", x, 2, 0, 2, 1);
-        addAll(x, 0, 1);
-        due("read with s and n", x.read(0), 0);
-        addAll(x, 0, 1);
-        due("read with all", x.read(0), 2);
-        allTold("all", x);
+    private static void readObjects() {
+        about("14: of an object that is there");
+        Bench x = bench(1);
+        x.due(x.object(1), 1);
+        x.raw(4, 16);
+        x.addAll(0, 0, 0, 0, 0, 0, 2, 0, 0, 0, 1, 0, 0, 1, 0, 0, 0, 0, 0);
+        x.due(x.read(0), 1);
+        x.toldDue(3, 1, 4, 2, 3, 3);
+        x.due(x.object(0), 2);
+        x.due(x.read(0), 2);
+        x.toldDue(4, 2, 3, 3);
+        Bench last = bench(60);
+        last.raw(3, 12);
+        last.addAll(0, 0, 59, 0, 0, 0, 60, 0, 0, 255, 255, 0, 0, 0, 0);
+        last.due(last.read(0), 1);
+        last.toldDue(3, 1, 3, 2);
 
-        ObjectStreams low = withValues(2);
-        low.raw(2, 7);
-        addAll(low, 0, 0, 0, 0, 1, 0, 1, 0, 1, 0, 0);
-        due("FIRST within a pair", low.read(0), 1);
-        allTold("FIRST within a pair", low, 1, 1);
-        due("pair(0, 1, 0)", low.pair(0, 1, 0), NONE);
-        due("find(1, 0)", low.find(1, 0), NONE);
+        about("14: no STREAM");
+        Bench streams = bench(0);
+        streams.object(1);
+        streams.object(0);
+        streams.raw(2, 8);
+        streams.addAll(0, 0, 0, 0, 0, 0, 1, 0, 0, 0, 0);
+        streams.due(streams.read(0), 1);
+        streams.toldDue(4, 0);
+    }
+
+    private static void readAgain() {
+        about("14: and that no PAIR before (THERE) is of");
+        Bench x = bench(2);
+        x.raw(5, 16);
+        x.addAll(0, 0, 0, 0, 0, 0, 0, 0, 0, 0, 1, 0, 0, 0, 0, 0, 0, 0, 0);
+        x.due(x.read(0), 2);
+        x.toldDue(5, 1, 5, 3, 1, 4);
+        // A PAIR without CONTENT is THERE, and so the next one is not the first of its object.
+        Bench none = bench(1);
+        none.raw(2, 8);
+        none.addAll(0, 0, 0, 9, 9, 0, 0, 0, 0, 0, 0);
+        none.due(none.read(0), 0);
+        none.toldDue(2, 0, 5, 1);
+        // In another PACK, also in one that it extends, it may stand again.
+        Bench other = bench(1);
+        other.raw(1, 4);
+        other.raw(1, 4);
+        other.addAll(0, 0, 0, 0, 0, 0, 0);
+        other.addAll(1, 0, 0, 0, 0, 0, 0);
+        other.extend(1, 0);
+        other.due(other.read(0), 1);
+        other.due(other.read(1), 1);
+        other.toldDue();
     }
 
     private static void told() {
-        ObjectStreams x = withValues(1);
-        due("told(NONE, 1)", x.told(NONE, 1), 0);
+        about("15: 0 what it is, 1 the PAIR: 1 it is not THERE, 2 it has no CONTENT, 3 there is no such object, "
+            + "4 it is of a STREAM, 5 a PAIR before is of its object");
+        Bench x = bench(2);
+        x.due(x.object(1), 2);
+        x.raw(6, 20);
+        x.addAll(0, 0, 0, 0, 0, 0, 0, 0, 0, 0, 2, 0, 0, 0, 3, 0, 0, 0, 1, 9, 9, 0, 0);
+        x.due(x.read(0), 1);
+        x.toldDue(5, 1, 4, 2, 3, 3, 2, 4, 1, 5);
+
+        about("15: of a PAIR the first of these alone");
+        Bench y = bench(1);
+        y.due(y.object(1), 1);
+        y.raw(8, 28);
+        // PAIR 1 is of a STREAM again, 3 of no object again; 4, 5, 6 are so too, without CONTENT.
+        y.addAll(0, 0, 1, 0, 0, 0, 1, 0, 0, 0, 2, 0, 0, 0, 2, 0, 0);
+        y.addAll(0, 0, 1, 9, 9, 0, 2, 9, 9, 0, 2, 9, 9, 0, 0);
+        y.due(y.read(0), 0);
+        y.toldDue(4, 0, 4, 1, 3, 2, 3, 3, 2, 4, 2, 5, 2, 6, 1, 7);
+        Bench again = bench(1);
+        again.raw(2, 8);
+        again.addAll(0, 0, 0, 0, 0, 0, 0, 9, 9, 0, 0);
+        again.due(again.read(0), 1);
+        again.toldDue(2, 1);
+    }
+
+    private static void toldNone() {
+        about("15: i = NONE: how many");
+        Bench x = bench(1);
         x.raw(99, 4);
-        addAll(x, 0, 0, 0, 0, 0, 0, 0);
-        x.raw(1, 4);
-        due("read(0)", x.read(0), 1);
-        due("told(NONE, 0)", x.told(NONE, 0), 98);
-        due("told(NONE, 1)", x.told(NONE, 1), 98);
-        due("told(0, 1)", x.told(0, 1), 1);
-        due("told(97, 0)", x.told(97, 0), 1);
-        due("told(97, 1)", x.told(97, 1), 98);
-        for (int n : new int[] {98, 99, 100, -2, Integer.MIN_VALUE, Integer.MAX_VALUE}) {
-            due("told(" + n + ", 0)", x.told(n, 0), NONE);
-            due("told(" + n + ", 1)", x.told(n, 1), NONE);
-            due("told(0, " + n + ")", x.told(0, n), NONE);
+        x.addAll(0, 0, 0, 0, 0, 0, 0);
+        x.due(x.read(0), 1);
+        x.due(x.told(NONE, 0), 98);
+        x.due(x.told(NONE, 1), 98);
+        x.raw(99, 0);
+        x.due(x.read(1), 0);
+        x.due(x.told(NONE, 0), 99);
+        x.due(x.told(98, 0), 1);
+        x.due(x.told(98, 1), 98);
+        x.due(x.told(99, 0), NONE);
+        x.raw(0, 0);
+        x.due(x.read(2), 0);
+        x.due(x.told(NONE, 0), 0);
+
+        about("15: NONE when there is none such");
+        x.due(x.told(0, 0), NONE);
+        x.due(x.told(0, 1), NONE);
+        x.due(x.read(0), 1);
+        x.due(x.told(0, 1), 1);
+        x.due(x.told(97, 0), 1);
+        x.due(x.told(97, 1), 98);
+        for (int i : new int[] {98, 99, 100, -2, 65536, LEAST, GREATEST}) {
+            x.due(x.told(i, 0), NONE);
+            x.due(x.told(i, 1), NONE);
         }
-        due("told(0, -1)", x.told(0, -1), NONE);
-        due("told(0, 2)", x.told(0, 2), NONE);
-        x.add(0, (byte) 1);
-        x.raw(2, 2);
-        x.pack(1);
-        due("what was told stays", x.told(NONE, 0), 98);
-        due("read(2) that is BAD", x.read(3), BAD);
-        due("what was told stays", x.told(NONE, 0), 98);
-        due("read(1)", x.read(1), 0);
-        allTold("a later read", x, 1, 0);
+        x.due(bench(0).told(0, 0), NONE);
+
+        about("15: or what is not 0, 1");
+        for (int what : new int[] {-1, 2, -2, 3, 256, 65536, LEAST, GREATEST}) {
+            x.due(x.told(0, what), NONE);
+            x.due(x.told(97, what), NONE);
+            x.due(x.told(98, what), NONE);
+        }
+    }
+
+    private static void toldLatest() {
+        about("15: What the latest read() (that was not BAD) TOLD");
+        Bench x = bench(1);
+        x.due(x.told(NONE, 0), 0);
+        x.due(x.read(0), BAD);
+        x.due(x.told(NONE, 0), 0);
+        x.raw(2, 4);
+        x.addAll(0, 0, 0, 0, 0);
+        x.raw(1, 4);
+        x.due(x.read(0), 0);
+        x.toldDue(2, 0, 1, 1);
+        x.due(x.read(2), BAD);
+        x.due(x.read(NONE), BAD);
+        x.toldDue(2, 0, 1, 1);
+        x.addAll(0, 0, 0);
+        x.put(0, 1);
+        x.due(x.pack(1), 1);
+        x.toldDue(2, 0, 1, 1);
+        x.due(x.read(1), 0);
+        x.toldDue(1, 0);
+        x.due(x.read(0), 1);
+        x.toldDue(1, 1);
+        x.due(x.read(2), 1);
+        x.toldDue();
     }
 
     private static void pair() {
-        ObjectStreams x = new ObjectStreams();
-        due("pair without packs", x.pair(0, 0, 0), BAD);
-        x.raw(3, 12);
-        addAll(x, 0, 1, 2, -1, -2, -1, -1, 0, 0, 0, 0, 0);
-        for (int n : NO_NUMBER) {
-            due("pair(" + n + ", 0, 0)", x.pair(n, 0, 0), BAD);
-            due("pair(0, 0, " + n + ")", x.pair(0, 0, n), BAD);
-            due("pair(0, " + n + ", 0)", x.pair(0, n, 0), NONE);
-            due("pair(0, " + n + ", 1)", x.pair(0, n, 1), NONE);
-            due("pair(0, " + n + ", 2)", x.pair(0, n, 2), NONE);
+        about("16: Of a PAIR: 0 the object, 1 the place, 2 how long its CONTENT is (NONE without)");
+        Bench x = bench(0);
+        x.raw(4, 16);
+        x.addAll(0, 1, 2, 255, 254, 255, 255, 0, 0, 0, 7, 0, 3, 0, 7, 0, 4, 0, 1, 0, 9);
+        x.due(x.pair(0, 0, 0), 258);
+        x.due(x.pair(0, 0, 1), 65534);
+        x.due(x.pair(0, 0, 2), NONE);
+        x.due(x.pair(0, 1, 0), 65535);
+        x.due(x.pair(0, 1, 1), 0);
+        x.due(x.pair(0, 1, 2), 1);
+        x.due(x.pair(0, 2, 0), 7);
+        x.due(x.pair(0, 2, 1), 3);
+        x.due(x.pair(0, 2, 2), NONE);
+        x.due(x.pair(0, 3, 2), NONE);
+        x.addAll(0, 0, 0);
+        x.due(x.pair(0, 3, 2), 0);
+    }
+
+    private static void pairRefused() {
+        about("16: BAD when there is no such PACK");
+        Bench x = packed();
+        for (int n : Bench.NO_NUMBER) {
+            x.due(x.pair(n, 0, 0), BAD);
+            x.due(x.pair(n, 99, 2), BAD);
         }
-        due("pair(0, 0, 3)", x.pair(0, 0, 3), BAD);
-        due("pair(0, 9, 3)", x.pair(0, 9, 3), BAD);
-        due("pair(1, 0, 0)", x.pair(1, 0, 0), BAD);
-        due("pair(0, 0, 0)", x.pair(0, 0, 0), 258);
-        due("pair(0, 0, 1)", x.pair(0, 0, 1), 65534);
-        due("pair(0, 0, 2)", x.pair(0, 0, 2), NONE);
-        due("pair(0, 1, 0)", x.pair(0, 1, 0), 65535);
-        due("pair(0, 1, 1)", x.pair(0, 1, 1), 0);
-        due("pair(0, 2, 0) with 3 bytes", x.pair(0, 2, 0), NONE);
-        due("pair(0, 2, 2) with 3 bytes", x.pair(0, 2, 2), NONE);
-        addAll(x, 0, 1);
-        due("pair(0, 2, 1)", x.pair(0, 2, 1), 1);
-        addAll(x, 0, 0, 0, 1, 1);
-        due("pair(0, 1, 2)", x.pair(0, 1, 2), 0);
-        due("pair(0, 2, 2)", x.pair(0, 2, 2), 1);
-        due("pair(0, 3, 0), the COUNT", x.pair(0, 3, 0), NONE);
-        x.raw(1, 8);
-        addAll(x, 1, 0, 0, 0, 0, 0, 0, 0, 0, 0, 0);
-        due("pair(1, 0, 2)", x.pair(1, 0, 2), 0);
+        x.due(x.pair(1, 0, 0), BAD);
+        x.due(bench(0).pair(0, 0, 0), BAD);
+
+        about("16: or what");
+        for (int what : new int[] {-1, 3, -2, 4, 256, 65536, LEAST, GREATEST}) {
+            x.due(x.pair(0, 0, what), BAD);
+            x.due(x.pair(0, 9, what), BAD);
+            x.due(x.pair(0, -1, what), BAD);
+        }
+
+        about("16: NONE when it is not THERE");
+        x.raw(3, 7);
+        x.addAll(1, 0, 1, 0, 0, 0, 1, 0, 0, 0, 0, 0, 0);
+        x.raw(2, 8);
+        x.addAll(2, 0, 0, 0, 0, 0, 1, 0);
         for (int what = 0; what < 3; what++) {
-            due("pair(1, 1, " + what + "), the COUNT, with bytes before FIRST", x.pair(1, 1, what), NONE);
+            x.due(x.pair(1, 1, what), NONE);
+            x.due(x.pair(1, 2, what), NONE);
+            x.due(x.pair(2, 1, what), NONE);
         }
-    }
 
-    private static void contentOfUnsignedBytes() {
-        ObjectStreams x = withValues(4);
-        x.raw(4, 16);
-        addAll(x, 0, 0, 0, 0, 0, 0, 1, 1, 1, 0, 2, 1, 4, 0, 3, 1, 7);
-        addAll(x, 0, 0, 255);
-        for (int i = 0; i < 255; i++) {
-            x.add(0, (byte) i);
+        about("16: or k not 0 up to COUNT");
+        for (int k : new int[] {-1, -2, 2, 3, 99, 100, 65536, 1 << 30, LEAST, GREATEST}) {
+            for (int what = 0; what < 3; what++) {
+                x.due(x.pair(0, k, what), NONE);
+            }
         }
-        addAll(x, 0, -56, 1, 77, -54, 0, 0, -55, 0);
-        due("n of 255", x.pair(0, 0, 2), 255);
-        due("s of 200", x.pair(0, 1, 2), 201);
-        due("s of 202 behind 201", x.pair(0, 2, 2), NONE);
-        due("s of 201 behind none", x.pair(0, 3, 2), NONE);
-        due("row(1, 0, 1)", x.row(1, 0, 1), 0);
-        due("size(1)", x.size(1), 201);
-        due("at(1, 199)", Check.at(x, 1, 199), (byte) 199);
-        due("at(1, 200)", Check.at(x, 1, 200), 77);
-        due("at(1, 201)", Check.at(x, 1, 201), THROWS);
-        due("row(0, 0, 0)", x.row(0, 0, 0), 0);
-        due("at(0, 254)", Check.at(x, 0, 254), (byte) 254);
-        due("change(0)", x.change(0), FULL);
-    }
-
-    private static void contentBehindNone() {
-        ObjectStreams x = withValues(4);
-        x.raw(4, 16);
-        addAll(x, 0, 0, 0, 0, 0, 0, 1, 0, 4, 0, 2, 0, 0, 0, 3, 0, 7);
-        addAll(x, 0, 0, 2, 8, 9, 3, 1, 5, 2, 1, 6);
-        due("s of 3 behind 2", x.pair(0, 1, 2), NONE);
-        due("s of 0 behind none", x.pair(0, 2, 2), 2);
-        due("s of 2 behind 2", x.pair(0, 3, 2), 3);
-        x.row(3, 0, 3);
-        bytes("behind one behind none", x, 3, 8, 9, 6);
-
-        ObjectStreams chain = withValues(4);
-        chain.raw(4, 16);
-        addAll(chain, 0, 0, 0, 0, 0, 0, 1, 0, 5, 0, 2, 0, 8, 0, 3, 0, 11);
-        addAll(chain, 0, 0, 3, 1, 2, 3, 3, 1, 4, 2, 1, 5, 3, 0);
-        for (int i = 0; i < 4; i++) {
-            chain.row(i, 0, i);
+        x.raw(1, 8);
+        x.addAll(3, 0, 0, 0, 0, 0, 0, 0, 0, 0, 0);
+        for (int what = 0; what < 3; what++) {
+            x.due(x.pair(3, 0, what), 0);
+            x.due(x.pair(3, 1, what), NONE);
         }
-        bytes("chain", chain, 1, 1, 2, 3, 4);
-        bytes("chain", chain, 2, 1, 2, 5);
-        bytes("chain", chain, 3, 1, 2, 5);
-
-        ObjectStreams first = withValues(1);
-        first.raw(1, 4);
-        addAll(first, 0, 0, 0, 0, 0, 1, 0);
-        due("s of 1 behind nothing", first.pair(0, 0, 2), NONE);
     }
 
     private static void find() {
-        ObjectStreams x = withValues(1);
-        due("find without packs", x.find(0, 0), BAD);
+        about("17: the first PAIR that is THERE and of it");
+        Bench x = bench(1);
         x.raw(3, 12);
-        addAll(x, 0, 0, 5, 9, 9, 0, 6, 0, 0, 0, 5, 0, 0);
+        x.addAll(0, 0, 5, 9, 9, 0, 6, 0, 0, 0, 5, 0, 0);
+        x.due(x.find(5, 0), 0);
+        x.due(x.find(6, 0), 1);
+        x.raw(3, 8);
+        x.addAll(1, 0, 6, 0, 0, 0, 8, 0);
+        x.due(x.find(8, 1), NONE);
+        x.addAll(1, 0);
+        x.due(x.find(8, 1), 101);
+        x.addAll(1, 0, 7, 0, 0);
+        x.due(x.find(7, 1), NONE);
+
+        about("17: by its number alone, also when there is no such object");
+        x.due(x.row(0, 0, 0), 0);
+        x.due(x.find(0, 0), NONE);
         x.raw(2, 8);
-        addAll(x, 1, 0, 6, 0, 0, 0, 7, 0);
-        x.raw(2, 8);
-        addAll(x, 2, -1, -1, 0, 0, 0, 7, 0, 0);
-        for (int n : NO_NUMBER) {
-            due("find(5, " + n + ")", x.find(5, n), BAD);
-            due("find(" + n + ", 0)", x.find(n, 0), NONE);
+        x.addAll(2, 255, 255, 0, 0, 0, 0, 0, 0);
+        x.due(x.find(65535, 2), 200);
+        x.due(x.find(0, 2), 201);
+        x.due(x.find(1, 2), NONE);
+        for (int n : Bench.NO_NUMBER) {
+            x.due(x.find(n, 0), NONE);
+            x.due(x.find(n, 2), NONE);
         }
-        due("find(5, 3)", x.find(5, 3), BAD);
-        due("the first, without content too", x.find(5, 0), 0);
-        due("find(6, 0)", x.find(6, 0), 1);
-        due("find(6, 1)", x.find(6, 1), 100);
-        due("not THERE", x.find(7, 1), NONE);
-        due("find(65535, 2)", x.find(65535, 2), 200);
+        x.due(x.find(131071, 2), NONE);
+
+        about("17: BAD when there is no such PACK");
+        for (int n : Bench.NO_NUMBER) {
+            x.due(x.find(0, n), BAD);
+            x.due(x.find(n, n), BAD);
+        }
+        x.due(x.find(0, 3), BAD);
+        x.due(bench(1).find(0, 0), BAD);
+    }
+
+    private static void findExtended() {
+        about("17: in the PACK, or else in that which it extends, and so on: 100 times the PACK, and k");
+        Bench x = bench(0);
+        x.raw(2, 8);
+        x.addAll(0, 0, 5, 0, 0, 0, 6, 0, 0);
+        x.raw(2, 8);
+        x.addAll(1, 0, 7, 0, 0, 0, 6, 0, 0);
+        x.raw(2, 8);
+        x.addAll(2, 0, 8, 0, 0, 0, 7, 0, 0);
         x.extend(1, 0);
         x.extend(2, 1);
-        due("the pack itself first", x.find(6, 1), 100);
-        due("in what it extends", x.find(6, 2), 100);
-        due("in what that extends", x.find(5, 2), 0);
-        due("find(7, 2)", x.find(7, 2), 201);
-        due("not in what extends it", x.find(7, 0), NONE);
-        due("NONE over all", x.find(NONE, 2), NONE);
-        due("0 over all", x.find(0, 2), NONE);
+        x.due(x.find(8, 2), 200);
+        x.due(x.find(7, 2), 201);
+        x.due(x.find(6, 2), 101);
+        x.due(x.find(5, 2), 0);
+        x.due(x.find(6, 0), 1);
+        x.due(x.find(7, 1), 100);
+
+        about("17: NONE when there is none");
+        x.due(x.find(9, 2), NONE);
+        x.due(x.find(NONE, 2), NONE);
+        x.due(x.find(0, 2), NONE);
+        x.due(x.find(8, 1), NONE);
+        x.due(x.find(7, 0), NONE);
+        Bench all = bench(0);
+        for (int p = 0; p < 20; p++) {
+            all.due(all.raw(99, 600), p);
+            all.extend(p, p - 1);
+        }
+        all.due(all.find(0, 19), NONE);
+        all.addAll(0, 0, 1, 0, 0, 0, 0, 0, 0);
+        all.due(all.find(0, 19), 1);
+        all.due(all.find(2, 19), NONE);
     }
 
     private static void count() {
-        ObjectStreams x = withValues(4);
-        for (int n : new int[] {-1, 5, -2, Integer.MIN_VALUE, Integer.MAX_VALUE}) {
-            due("count(" + n + ")", x.count(n), BAD);
-        }
-        due("object(1)", x.object(1), 4);
-        putAll(x, 0, 1);
-        putAll(x, 1, 1, 2);
-        putAll(x, 4, 1);
-        due("pack(1)", x.pack(1), 2);
+        about("18: Of all that there is: 0 objects, 1 PACKS, 2 objects that are IN PACKS, 3 those that are LOST, "
+            + "4 bytes of all PACKS");
+        Bench x = bench(4);
+        x.due(x.object(1), 4);
+        x.putAll(0, 1);
+        x.putAll(1, 1, 2);
+        x.putAll(4, 1);
+        x.due(x.pack(1), 2);
         x.raw(1, 4);
-        addAll(x, 2, 0);
+        x.addAll(2, 0);
         x.row(2, 2, 0);
-        int[] want = {5, 3, 3, 1, 7 + 8 + 1};
-        for (int what = 0; what < want.length; what++) {
-            due("count(" + what + ")", x.count(what), want[what]);
-        }
+        counts(x, 5, 3, 3, 1, 7 + 8 + 1);
         x.row(0, 2, 0);
-        due("count(3) with 0 and 2", x.count(3), 2);
+        counts(x, 5, 3, 3, 2, 16);
         x.change(0);
         x.change(2);
-        int[] later = {5, 3, 1, 0, 16};
-        for (int what = 0; what < later.length; what++) {
-            due("count(" + what + ") later", x.count(what), later[what]);
+        counts(x, 5, 3, 1, 0, 16);
+
+        Bench most = bench(60);
+        for (int p = 0; p < 20; p++) {
+            most.raw(0, 0);
+        }
+        for (int i = 0; i < 60; i++) {
+            most.row(i, 19, 99);
+        }
+        counts(most, 60, 20, 60, 60, 0);
+
+        about("18: BAD for others");
+        for (int what : new int[] {-1, 5, -2, 6, 256, 65536, LEAST, GREATEST}) {
+            x.due(x.count(what), BAD);
+        }
+    }
+
+    private static void counts(Bench x, int... want) {
+        for (int what = 0; what < want.length; what++) {
+            x.due(x.count(what), want[what]);
         }
     }
 }
