@@ -1010,6 +1010,10 @@ public final class PromisesTest {
         x.change(0);
         x.change(2);
         counts(x, 5, 3, 1, 0, 16);
+        x.raw(1, 4);
+        x.addAll(3, 0, 3, 0, 0, 0, 0);
+        x.row(3, 3, 0);
+        counts(x, 5, 4, 2, 0, 22);
 
         Bench most = bench(60);
         for (int p = 0; p < 20; p++) {

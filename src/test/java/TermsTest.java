@@ -29,9 +29,11 @@ public final class TermsTest {
         packedObjects();
         packBegins();
         packFewest();
+        packAlikeNoFurther();
         packLeast();
         packEnds();
         packEndsAt600();
+        packBeginsBehind600();
         packCountAndFirst();
         packPlaces();
         packS();
@@ -266,6 +268,7 @@ public final class TermsTest {
         empty.row(0, 0, 0);
         empty.bytesDue(0);
         empty.due(empty.pair(0, 0, 2), 0);
+        empty.due(empty.count(3), 0);
 
         Bench x = packOf(3, 3, 12, 0, 0, 0, 0, 0, 1, 1, 1, 0, 2, 1, 4, 0, 255);
         for (int i = 0; i < 255; i++) {
@@ -502,6 +505,36 @@ public final class TermsTest {
         }
     }
 
+    /** What lies behind an object's bytes, or lay there once, is not alike. */
+    private static void packAlikeNoFurther() {
+        about("as many as both have alike from the beginning on (no further than both have bytes)");
+        Bench x = bench(3);
+        x.putAll(0, 1, 0, 0);
+        x.putAll(1, 1);
+        x.putAll(2, 1, 0);
+        x.due(x.pack(10), 1);
+        x.octetsDue(0, 0, 0, 0, 0, 0, 1, 0, 5, 0, 2, 0, 7, 0, 3, 1, 0, 0, 1, 0, 1, 1, 0);
+
+        Bench once = bench(2);
+        once.raw(0, 0);
+        once.putAll(0, 1, 2, 3, 4);
+        once.due(once.row(0, 0, 0), 0);
+        once.due(once.change(0), NONE);
+        once.putAll(0, 1, 2);
+        once.putAll(1, 1, 2, 3, 4);
+        once.due(once.pack(10), 1);
+        once.octetsDue(1, 0, 0, 0, 0, 0, 1, 0, 4, 0, 2, 1, 2, 2, 2, 3, 4);
+
+        Bench all = bench(2);
+        all.putAll(0, new int[60]);
+        all.putAll(1, new int[60]);
+        all.due(all.pack(10), 1);
+        all.due(all.count(4), 8 + 62 + 2);
+        all.due(all.octet(0, 70), 60);
+        all.due(all.octet(0, 71), 0);
+        all.due(all.size(1), 60);
+    }
+
     private static void packLeast() {
         about("of several the least");
         Bench x = bench(5);
@@ -530,6 +563,15 @@ public final class TermsTest {
             }
             x.due(x.read(0), most);
             x.toldDue();
+        }
+        Bench all = bench(60);
+        for (int i = 0; i < 60; i++) {
+            all.put(i, i);
+        }
+        all.due(all.pack(10), 6);
+        for (int i = 0; i < 60; i++) {
+            all.due(all.in(i), 100 * (i / 10) + i % 10);
+            all.due(all.at(i, 0), i);
         }
     }
 
@@ -566,6 +608,20 @@ public final class TermsTest {
             z.due(z.in(8), 108);
             z.due(z.in(9), alike == 6 ? 109 : 200);
         }
+    }
+
+    /** Behind 8 comes 10, for which there is no room; so 9, the least, begins the next one. */
+    private static void packBeginsBehind600() {
+        about("a PACK is begun with the least of them (not with the one that had no room)");
+        Bench x = Bench.broad(CHECK, 10, 60);
+        x.due(x.object(0), 10);
+        for (int i = 0; i < 60; i++) {
+            x.put(10, i < 50 ? x.at(8, i) : 1);
+        }
+        x.due(x.pack(10), 2);
+        x.due(x.in(8), 108);
+        x.due(x.in(9), 200);
+        x.due(x.in(10), 201);
     }
 
     private static void packCountAndFirst() {
